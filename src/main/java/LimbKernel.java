@@ -59,10 +59,11 @@ public final class LimbKernel {
             return NO_HANDLE;
         }
         int order = Memory.orderFor(limbs);
-        if (!memory.canGive(order, NONE)) {
+        int address = memory.give(order);
+        if (address == NONE) {
             return NO_ROOM;
         }
-        occupy(h, limbs, order);
+        occupy(h, limbs, order, address);
         return h;
     }
 
@@ -265,16 +266,15 @@ public final class LimbKernel {
         return NONE;
     }
 
-    /** Makes the number 0 of a free handle; its block must be there. */
-    private void occupy(int h, int size, int order) {
+    private void occupy(int h, int size, int order, int address) {
         Numeral numeral = numerals[h];
         numeral.inUse = true;
         numeral.unfinished = false;
         numeral.size = size;
         numeral.order = order;
-        numeral.address = memory.give(order);
+        numeral.address = address;
         numeral.pins = 0;
-        Arrays.fill(memory.limbs, numeral.address, numeral.address + size, 0);
+        Arrays.fill(memory.limbs, address, address + size, 0);
         handlesInUse++;
     }
 
@@ -320,7 +320,7 @@ public final class LimbKernel {
         if (h == NONE || !memory.canGive(job.resultOrder, job.roomOrder)) {
             return;
         }
-        occupy(h, job.resultSize, job.resultOrder);
+        occupy(h, job.resultSize, job.resultOrder, memory.give(job.resultOrder));
         numerals[h].unfinished = true;
         numerals[h].pins = 1;
         job.result = h;
