@@ -767,14 +767,8 @@ public final class LimbKernel {
             long low = ((long) third << shift | fourth >> (LIMB_BITS - shift)) & LIMB_MASK;
             long digit = high / divisorTop;
             long rest = high - digit * divisorTop;
-            for (int step = 0; step < 2 && rest <= LIMB_MASK; step++) {
-                if (digit <= LIMB_MASK && digit * divisorNext <= (rest << LIMB_BITS | low)) {
-                    break;
-                }
-                digit--;
-                rest += divisorTop;
-            }
-            return digit;
+            // The two highest limbs may tell 2 too many, which one more limb shows.
+            return digit > LIMB_MASK || digit * divisorNext > (rest << LIMB_BITS | low) ? digit - 1 : digit;
         }
 
         /** Takes the divisor away guess times, or once less if that is too often: how often it was. */
@@ -800,7 +794,7 @@ public final class LimbKernel {
                 limbs[u + i] = (int) (sum & LIMB_MASK);
                 carry = sum >> LIMB_BITS;
             }
-            return (int) guess - 1;
+            return (int) (guess - 1);
         }
     }
 }

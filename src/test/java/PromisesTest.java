@@ -13,14 +13,17 @@ public final class PromisesTest {
         init();
         newNumber();
         blocksAreHalvedAndJoined();
+        handlesEnd();
         setLimb();
         getLimb();
         sizeOf();
         release();
         submitRefuses();
         submitPinsAndPlans();
+        needsAtTheirEdges();
         tickStarts();
         tickWaitsForRoom();
+        tickHalvesForBoth();
         tickTakesTurns();
         tickEnds();
         run();
@@ -123,6 +126,16 @@ public final class PromisesTest {
         DUE.is("2: submit", x.submit(MUL, 0, 0, 0), 0);
         DUE.is("2: the most jobs are as told", jobsOf(x), 3);
         x.init();
+        x.setLimb(x.newNumber(1), 0, 7);
+        x.submit(DIVQ, 0, 0, 0);
+        x.tick();
+        x.init();
+        x.newNumber(1);
+        x.submit(MUL, 0, 0, 0);
+        x.tick();
+        x.cancel(0);
+        DUE.is("2: the ROOM of an earlier job is not given back", x.freeCells(), 255);
+        x.init();
         DUE.is("2: the most handles are as told", handlesOf(x), 8);
         x.init();
         DUE.is("2: the quantum is as told", quantumOf(x), 50);
@@ -188,6 +201,31 @@ public final class PromisesTest {
         DUE.is("Terms: then the greater one is halved", x.number(x.newNumber(1), 0), 4);
         DUE.is("Terms: its upper half", x.freeBlock(1, 0), 6);
         DUE.is("Terms: its lower half's upper half", x.freeBlock(0, 0), 5);
+        LimbKernel y = new LimbKernel(4, 1, 16, 1);
+        y.newNumber(2);
+        y.newNumber(2);
+        y.release(1);
+        y.release(0);
+        y.newNumber(8);
+        y.newNumber(2);
+        DUE.is("Terms: the halves of a joined block are no blocks", y.freeBlock(1, 0), 10);
+        DUE.is("Terms: nor are greater ones", y.freeBlock(2, 0), 12);
+    }
+
+    /** A handle that is one above the greatest that may be. */
+    private static void handlesEnd() {
+        for (int handles : new int[] {1, 2, 23, 24}) {
+            LimbKernel x = new LimbKernel(8, 2, handles, 10);
+            handlesOf(x);
+            x.setLimb(0, 0, 1);
+            DUE.is("4: beyond the handles", x.setLimb(handles, 0, 1), false);
+            DUE.is("5: beyond the handles", x.getLimb(handles, 0), NONE);
+            DUE.is("6: beyond the handles", x.sizeOf(handles), NONE);
+            DUE.is("7: beyond the handles", x.release(handles), false);
+            DUE.is("8: beyond the handles", x.submit(POWMOD, 0, 0, handles), BAD_HANDLE);
+            DUE.is("18: beyond the handles", x.number(handles, 0), NONE);
+            DUE.is("6: the last of the handles", x.sizeOf(handles - 1), 1);
+        }
     }
 
     private static void setLimb() {
@@ -364,6 +402,67 @@ public final class PromisesTest {
         y.setLimb(0, 0, 1);
         DUE.is("8: a job that never has room", y.submit(POWMOD, 0, 0, 0), 0);
         DUE.is("8: its WORK", y.workLeft(0), 31L * 2048 * 2048 + 1922L * 2048 * 2048 * 2048);
+    }
+
+    /** What a job of an operation takes of the pool, with operands of n, m and k limbs: a result and a ROOM, in limbs of their blocks. */
+    private static void needs(int op, int n, int m, int k, int result, int room) {
+        LimbKernel x = new LimbKernel(9, 1, 4, 10);
+        for (int size : new int[] {n, m, k}) {
+            x.setLimb(x.newNumber(size), 0, 1);
+        }
+        int before = x.freeCells();
+        x.submit(op, 0, 1, 2);
+        x.tick();
+        String what = "8: op " + op + " of " + n + ", " + m + ", " + k + " limbs";
+        DUE.is(what + ": the result's block", 1 << x.number(3, 1), result);
+        DUE.is(what + ": the ROOM's block", before - x.freeCells() - result, room);
+    }
+
+    private static void needsAtTheirEdges() {
+        needs(MUL, 1, 1, 1, 2, 0);
+        needs(MUL, 3, 5, 1, 8, 0);
+        needs(MUL, 4, 5, 1, 16, 0);
+        needs(DIVQ, 1, 1, 1, 1, 4);
+        needs(DIVQ, 1, 2, 1, 1, 4);
+        needs(DIVQ, 2, 2, 1, 2, 8);
+        needs(DIVQ, 4, 3, 1, 4, 8);
+        needs(DIVQ, 5, 3, 1, 8, 16);
+        needs(GCD, 1, 1, 1, 1, 4);
+        needs(GCD, 1, 3, 1, 4, 8);
+        needs(GCD, 3, 2, 1, 4, 16);
+        needs(GCD, 4, 4, 1, 4, 16);
+        needs(POWMOD, 7, 9, 1, 1, 4);
+        needs(POWMOD, 7, 9, 2, 2, 8);
+        needs(POWMOD, 7, 9, 5, 8, 16);
+        needs(POWMOD, 7, 9, 6, 8, 32);
+    }
+
+    /** The result's block and the ROOM's come out of one free block. */
+    private static void tickHalvesForBoth() {
+        LimbKernel x = with(4, 1, 5, 10, 9, 2);
+        x.newNumber(2);
+        x.newNumber(4);
+        x.submit(DIVQ, 0, 1, 0);
+        x.tick();
+        DUE.is("9: RUNNING", x.jobState(0), RUNNING);
+        DUE.is("9: the result is at its beginning", x.number(4, 0), 8);
+        DUE.is("9: the ROOM is its upper half", x.freeBlock(2, NONE), 0);
+        DUE.is("9: what is left of it", x.freeCells(), 3);
+        LimbKernel y = new LimbKernel(5, 1, 5, 10);
+        y.newNumber(5);
+        y.newNumber(1);
+        y.setLimb(1, 0, 1);
+        y.newNumber(1);
+        y.newNumber(2);
+        y.newNumber(4);
+        DUE.is("9: one block of 16", y.freeBlock(4, 0), 16);
+        y.submit(DIVQ, 0, 1, 0);
+        y.tick();
+        DUE.is("9: WAITING for a handle", y.jobState(0), WAITING);
+        y.release(2);
+        y.tick();
+        DUE.is("9: two halves of the same order", y.jobState(0), RUNNING);
+        DUE.is("9: only the one limb is free", y.freeCells(), 1);
     }
 
     private static void tickStarts() {
@@ -600,6 +699,10 @@ public final class PromisesTest {
         y.tick();
         y.cancel(1);
         DUE.is("14: in the middle, after a turn", 10 * y.count(4, 0) + y.count(4, 1), 20);
+        y.cancel(0);
+        DUE.is("14: the result's handle is free", y.newNumber(2), 1);
+        DUE.is("14: the number that has it now is no result", y.getLimb(1, 0), 0);
+        DUE.is("14: nor pinned", y.setLimb(1, 0, 8), true);
     }
 
     private static void forget() {

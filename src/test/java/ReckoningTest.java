@@ -17,6 +17,7 @@ public final class ReckoningTest {
         test.remaindersOfMultiples();
         test.steepDivisors();
         test.greatNumbers();
+        test.nothingIsWrittenElsewhere();
         test.due.end();
     }
 
@@ -57,9 +58,19 @@ public final class ReckoningTest {
         }
     }
 
+    /** No result may depend on what its block or its ROOM held before. */
+    private static void leaveRubbish(LimbKernel kernel) {
+        int h = kernel.newNumber(2048);
+        for (int i = 0; i < 2048; i++) {
+            kernel.setLimb(h, i, 0x7fffffff - i % 3);
+        }
+        kernel.release(h);
+    }
+
     /** Each operand may have limbs 0 above it. */
     private void check(int op, BigInteger a, BigInteger b, BigInteger m, int above) {
         LimbKernel kernel = new LimbKernel(11, 1, 4, 2000);
+        leaveRubbish(kernel);
         int n = sizeFor(a) + above;
         int k = sizeFor(b) + above;
         int l = sizeFor(m) + above;
@@ -175,5 +186,49 @@ public final class ReckoningTest {
         }
         // Numbers of Fibonacci take the most steps.
         check(GCD, now, before, BigInteger.ONE, 0);
+    }
+
+    private void nothingIsWrittenElsewhere() {
+        for (int op = MUL; op <= POWMOD; op++) {
+            for (int n = 1; n < 7; n++) {
+                for (int m = 1; m < 7; m++) {
+                    for (int k = 1; k < 7; k++) {
+                        nothingIsWrittenElsewhere(op, n, m, k);
+                    }
+                }
+            }
+        }
+    }
+
+    /** Every limb that is free while the job runs is part of some number, which must stay as it is. */
+    private void nothingIsWrittenElsewhere(int op, int n, int m, int k) {
+        LimbKernel kernel = new LimbKernel(7, 1, 24, 2000);
+        int[] sizes = {n, m, k};
+        for (int h = 0; h < 3; h++) {
+            put(kernel, BigInteger.ONE.shiftLeft(31 * sizes[h]).subtract(BigInteger.valueOf(3 + h)), sizes[h]);
+        }
+        kernel.submit(op, 0, 1, 2);
+        kernel.tick();
+        for (int order = 0; order <= 7; order++) {
+            for (int left = kernel.freeBlock(order, -1); left > 0; left--) {
+                put(kernel, BigInteger.ONE.shiftLeft(31 << order).subtract(BigInteger.ONE), 1 << order);
+            }
+        }
+        String what = "op " + op + " of " + n + ", " + m + ", " + k + " limbs";
+        due.is(what + ": limbs that are free", kernel.freeCells(), 0);
+        for (int i = 0; i < 100 && kernel.run(5000) == 5000; i++) {
+            continue;
+        }
+        due.is(what + ": state", kernel.jobState(0), 2);
+        for (int h = 4; kernel.sizeOf(h) > 0; h++) {
+            for (int i = 0; i < kernel.sizeOf(h); i++) {
+                due.is(what + ": limb " + i + " of another number", kernel.getLimb(h, i), 0x7fffffff);
+            }
+        }
+        for (int h = 0; h < 3; h++) {
+            for (int i = 0; i < sizes[h]; i++) {
+                due.is(what + ": limb " + i + " of an operand", kernel.getLimb(h, i), i == 0 ? 0x7fffffff - 2 - h : 0x7fffffff);
+            }
+        }
     }
 }
