@@ -1,5 +1,6 @@
 import java.util.Arrays;
 
+/** What it does stands in DOC.md, promise by promise; the words in capitals are that document's. */
 public final class LimbKernel {
     public static final int NONE = -1, BAD_SIZE = -2, NO_HANDLE = -3, NO_ROOM = -4, BAD_OP = -5, BAD_HANDLE = -6, DIV_ZERO = -7, NO_JOB = -8;
 
@@ -533,10 +534,10 @@ public final class LimbKernel {
 
         int give(int order) {
             int from = leastFreeOrder(order);
-            if (from == NONE) {
+            int address = from == NONE ? NONE : addressOfFree(from, 0);
+            if (address == NONE) {
                 return NONE;
             }
-            int address = addressOfFree(from, 0);
             removeFree(address, from);
             for (int half = from - 1; half >= order; half--) {
                 addFree(address + (1 << half), half);
@@ -767,7 +768,7 @@ public final class LimbKernel {
             long low = ((long) third << shift | fourth >> (LIMB_BITS - shift)) & LIMB_MASK;
             long digit = high / divisorTop;
             long rest = high - digit * divisorTop;
-            // The two highest limbs may tell 2 too many, which one more limb shows.
+            // Two limbs alone may tell 2 too many; the third limb shows it, or leaves 1 too many at the most.
             return digit > LIMB_MASK || digit * divisorNext > (rest << LIMB_BITS | low) ? digit - 1 : digit;
         }
 
@@ -783,7 +784,7 @@ public final class LimbKernel {
                 carry = left >> LIMB_BITS;
             }
             long top = limbs[u + divisorSize] + carry;
-            // Above a rest there is 0; that of a guess too great becomes it when the divisor is added again.
+            // Above a rest there is 0, and so there is above one that was below 0 when the divisor is added again.
             limbs[u + divisorSize] = 0;
             if (top >= 0) {
                 return (int) guess;

@@ -17,6 +17,15 @@ public final class FaceTest {
     };
 
     private static final Due DUE = new Due();
+    private static final TreeSet<String> NAMES = names();
+
+    private static TreeSet<String> names() {
+        TreeSet<String> names = new TreeSet<>();
+        for (String method : METHODS) {
+            names.add(method.substring(method.indexOf(' ') + 1, method.indexOf('(')));
+        }
+        return names;
+    }
 
     public static void main(String[] args) throws Exception {
         Class<?> face = LimbKernel.class;
@@ -28,6 +37,9 @@ public final class FaceTest {
             int modifiers = inside.getModifiers();
             DUE.is(inside + " is static", Modifier.isStatic(modifiers), true);
             DUE.is(inside + " can be seen from afar", Modifier.isPublic(modifiers) || Modifier.isProtected(modifiers), false);
+            for (Method method : inside.getDeclaredMethods()) {
+                DUE.is(inside + " has a method of the face's name " + method.getName(), NAMES.contains(method.getName()), false);
+            }
             DUE.is("fields of " + inside + " over twenty", inside.getDeclaredFields().length > 20, false);
         }
         DUE.end();
@@ -35,13 +47,9 @@ public final class FaceTest {
 
     private static void methods(Class<?> face) {
         TreeSet<String> want = new TreeSet<>(java.util.List.of(METHODS));
-        TreeSet<String> names = new TreeSet<>();
-        for (String method : METHODS) {
-            names.add(method.substring(method.indexOf(' ') + 1, method.indexOf('(')));
-        }
         for (Method method : face.getDeclaredMethods()) {
             if (Modifier.isPrivate(method.getModifiers())) {
-                DUE.is("private " + method.getName() + " bears a public name", names.contains(method.getName()), false);
+                DUE.is("private " + method.getName() + " bears a public name", NAMES.contains(method.getName()), false);
                 continue;
             }
             StringBuilder text = new StringBuilder(method.getReturnType() + " " + method.getName() + "(");
