@@ -2,7 +2,7 @@ import java.util.Random;
 
 /** Runs of calls drawn at random (always the same ones), each answer compared with PlainKernel's. */
 public final class RandomRunsTest {
-    private static final int RUNS = 3000;
+    private static final int RUNS = 8000;
     private static final int CALLS = 400;
     private static final int[] WORDS = {0, 1, 2, 3, 10, 1 << 30, (1 << 30) - 1, (1 << 30) + 1, 0x7fffffff, 0x7ffffffe, -1, Integer.MIN_VALUE};
     private static final int[] ODD = {-2, -1, Integer.MIN_VALUE, Integer.MAX_VALUE, 24, 99, 0};
@@ -73,30 +73,30 @@ public final class RandomRunsTest {
 
     private void oneCall() {
         int kind = random.nextInt(100);
-        if (kind < 12) {
+        if (kind < 7) {
             callNewNumber();
-        } else if (kind < 34) {
+        } else if (kind < 30) {
             int h = handle();
             int i = below(Math.max(1, plain.sizeOf(h)), 25);
             int w = word();
             is("setLimb(" + h + ", " + i + ", " + w + ")", kernel.setLimb(h, i, w), plain.setLimb(h, i, w));
-        } else if (kind < 52) {
+        } else if (kind < 42) {
             callSubmit();
-        } else if (kind < 60) {
+        } else if (kind < 54) {
             is("tick()", kernel.tick(), plain.tick());
-        } else if (kind < 70) {
+        } else if (kind < 66) {
             int n = random.nextInt(15) == 0 ? new int[] {-1, 0, 5000, 5001}[random.nextInt(4)] : random.nextInt(random.nextBoolean() ? 20 : 300);
             is("run(" + n + ")", kernel.run(n), plain.run(n));
-        } else if (kind < 76) {
+        } else if (kind < 75) {
             int h = handle();
             is("release(" + h + ")", kernel.release(h), plain.release(h));
         } else if (kind < 82) {
             int j = job();
             is("forget(" + j + ")", kernel.forget(j), plain.forget(j));
-        } else if (kind < 84) {
+        } else if (kind < 86) {
             int j = job();
             is("cancel(" + j + ")", kernel.cancel(j), plain.cancel(j));
-        } else if (kind == 84 && random.nextInt(6) == 0) {
+        } else if (kind == 86 && random.nextInt(4) == 0) {
             is("init()", kernel.init(), plain.init());
         } else {
             look();
@@ -104,7 +104,7 @@ public final class RandomRunsTest {
     }
 
     private void callNewNumber() {
-        int most = random.nextInt(3) == 0 ? 1 << poolLog : 1 << Math.max(1, poolLog - 3);
+        int most = random.nextInt(12) == 0 ? 1 << poolLog : 1 << Math.max(1, poolLog - 5);
         int limbs = random.nextInt(20) == 0 ? new int[] {0, -1, 1 << poolLog, (1 << poolLog) + 1, Integer.MAX_VALUE}[random.nextInt(5)] : 1 + random.nextInt(most);
         is("newNumber(" + limbs + ")", kernel.newNumber(limbs), plain.newNumber(limbs));
     }
