@@ -2,17 +2,35 @@
 final class Due {
     private int asked = 0;
     private int wrong = 0;
+    private String about = "";
+
+    /** What the next answers have to do with. */
+    void about(String what) {
+        about = what.isEmpty() ? "" : what + ": ";
+    }
 
     void is(String what, long got, long want) {
-        asked++;
-        if (got != want) {
-            wrong++;
-            System.out.println(what + " answered " + got + ", due is " + want);
-        }
+        tell(what, got == want, got, want);
     }
 
     void is(String what, boolean got, boolean want) {
-        is(what, got ? 1 : 0, want ? 1 : 0);
+        tell(what, got == want, got, want);
+    }
+
+    void is(String what, String got, String want) {
+        tell(what, got.equals(want), got, want);
+    }
+
+    private void tell(String what, boolean right, Object got, Object want) {
+        asked++;
+        if (!right) {
+            wrong++;
+            System.out.println(about + what + " answered " + got + ", due is " + want);
+        }
+    }
+
+    int asked() {
+        return asked;
     }
 
     boolean anyWrong() {

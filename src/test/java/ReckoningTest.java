@@ -1,7 +1,10 @@
 import java.math.BigInteger;
 import java.util.Random;
 
-/** The four operations on numbers of many sizes, with limbs at which carries and guessed digits go wrong, against BigInteger. */
+/**
+ * The four operations on numbers of many sizes, with limbs at which carries and guessed digits go wrong, against BigInteger. No
+ * object is asked more than the 512 calls that the document speaks of, which bounds the sizes.
+ */
 public final class ReckoningTest {
     private static final int MUL = 0, DIVQ = 1, GCD = 2, POWMOD = 3;
     private static final int[] EDGES = {0, 0, 1, 2, 1 << 30, (1 << 30) - 1, (1 << 30) + 1, 0x7fffffff, 0x7fffffff, 0x7ffffffe};
@@ -59,18 +62,26 @@ public final class ReckoningTest {
     }
 
     /** No result may depend on what its block or its ROOM held before. */
-    private static void leaveRubbish(LimbKernel kernel) {
-        int h = kernel.newNumber(2048);
-        for (int i = 0; i < 2048; i++) {
+    private static LimbKernel fullOfRubbish() {
+        LimbKernel kernel = new LimbKernel(7, 1, 4, 2000);
+        int h = kernel.newNumber(128);
+        for (int i = 0; i < 128; i++) {
             kernel.setLimb(h, i, 0x7fffffff - i % 3);
         }
         kernel.release(h);
+        return kernel;
+    }
+
+    private void check(int op, BigInteger a, BigInteger b, BigInteger m, int above) {
+        check(fullOfRubbish(), op, a, b, m, above);
+    }
+
+    private void checkGreat(int op, BigInteger a, BigInteger b, BigInteger m) {
+        check(new LimbKernel(11, 1, 4, 2000), op, a, b, m, 0);
     }
 
     /** Each operand may have limbs 0 above it. */
-    private void check(int op, BigInteger a, BigInteger b, BigInteger m, int above) {
-        LimbKernel kernel = new LimbKernel(11, 1, 4, 2000);
-        leaveRubbish(kernel);
+    private void check(LimbKernel kernel, int op, BigInteger a, BigInteger b, BigInteger m, int above) {
         int n = sizeFor(a) + above;
         int k = sizeFor(b) + above;
         int l = sizeFor(m) + above;
@@ -165,18 +176,19 @@ public final class ReckoningTest {
     }
 
     private void greatNumbers() {
-        BigInteger a = new BigInteger(31 * 400, random);
-        BigInteger b = new BigInteger(31 * 300, random);
-        check(MUL, a, b, BigInteger.ONE, 0);
-        check(DIVQ, a.shiftRight(31 * 150), b.shiftRight(31 * 100), BigInteger.ONE, 0);
-        check(DIVQ, a.shiftRight(31 * 150), b.shiftRight(31 * 250), BigInteger.ONE, 0);
-        check(DIVQ, b.shiftRight(31 * 250), a.shiftRight(31 * 150), BigInteger.ONE, 0);
+        BigInteger a = new BigInteger(31 * 150, random);
+        BigInteger b = new BigInteger(31 * 100, random);
+        checkGreat(MUL, a, b, BigInteger.ONE);
+        checkGreat(DIVQ, a, b, BigInteger.ONE);
+        checkGreat(DIVQ, a, b.shiftRight(31 * 60), BigInteger.ONE);
+        checkGreat(DIVQ, a, b.shiftRight(31 * 95), BigInteger.ONE);
+        checkGreat(DIVQ, b, a, BigInteger.ONE);
         BigInteger common = new BigInteger(31 * 50, random);
-        BigInteger x = new BigInteger(31 * 150, random).multiply(common);
-        BigInteger y = new BigInteger(31 * 140, random).multiply(common);
-        check(GCD, x, y, BigInteger.ONE, 0);
-        check(GCD, y, common, BigInteger.ONE, 0);
-        check(POWMOD, x, big(0x7fffffff, 5, 77), common, 0);
+        BigInteger x = new BigInteger(31 * 100, random).multiply(common);
+        BigInteger y = new BigInteger(31 * 90, random).multiply(common);
+        checkGreat(GCD, x, y, BigInteger.ONE);
+        checkGreat(GCD, y, common, BigInteger.ONE);
+        checkGreat(POWMOD, x, big(0x7fffffff, 5, 77), common);
         BigInteger before = BigInteger.ZERO;
         BigInteger now = BigInteger.ONE;
         for (int i = 0; i < 5000; i++) {
@@ -185,7 +197,7 @@ public final class ReckoningTest {
             now = next;
         }
         // Numbers of Fibonacci take the most steps.
-        check(GCD, now, before, BigInteger.ONE, 0);
+        checkGreat(GCD, now, before, BigInteger.ONE);
     }
 
     private void nothingIsWrittenElsewhere() {
